@@ -1,0 +1,102 @@
+import java.lang.reflect.InvocationTargetException;
+import java.lang.reflect.Method;
+import java.util.Arrays;
+import java.util.Set;
+import java.util.TreeSet;
+
+/** Wrong inputs at every method: which exception is thrown, the first one listed if several apply, and no change. */
+public final class WrongTest {
+    /** Two microphones, 6 cells, a source, 32 samples, two zones, two peaks at the most. */
+    private static final String TEXT = "camera distance 100 step 1 samples 32 limit 9999;mic 0 0 1;mic 75 0 2"
+            + ";map 0 0 75 3 2;source pulse 0 0 0 0 10 16 0;zone 0 0 1 1;zone 1 1 1 1";
+
+    /** A call and what it throws: S a state, X an index, A an argument; the numbers at a bound and beyond it. */
+    private static final String CALLS = """
+            micAt(-1,0)X micAt(2,0)X micAt(2,4)X micAt(0,-1)A micAt(0,4)A isMuted(-1)X isMuted(2)X
+            cellAt(-1,0)X cellAt(6,0)X cellAt(6,2)X cellAt(5,-1)A cellAt(5,2)A
+            sourceAt(-1,0,0)X sourceAt(1,0,0)X sourceAt(1,2,32)X sourceAt(0,2,0)A sourceAt(0,-1,0)A
+            sourceAt(0,0,-1)A sourceAt(0,0,32)A isOn(-1)X isOn(1)X waveAt(1,0)X waveAt(-1,-1)X waveAt(0,-1)A
+            waveAt(0,32)A delay(2,0)X delay(-1,0)X delay(0,6)X delay(0,-1)X delayTo(2,0,0)X delayTo(-1,10000,0)X
+            delayTo(0,10000,0)A delayTo(0,-10000,0)A delayTo(0,0,10000)A delayTo(0,0,-10000)A
+            spread(6)X spread(-1)X window(6)X window(-1)X sample(2,0)X sample(-1,32)X sample(0,32)A sample(0,-1)A
+            beam(6,0)X beam(-1,-1)X beam(0,-1)A beam(0,7)A power(6)X power(-1)X powerAt(10000,0)A powerAt(-10000,0)A
+            powerAt(0,10000)A powerAt(0,-10000)A peakAt(-1)X peakAt(6)X isPeak(6)X isPeak(-1)X
+            zonePower(2)X zonePower(-1)X zoneBest(2)X zoneBest(-1)X
+            alias(6,0,2)X alias(-1,0,2)X alias(0,6,2)X alias(0,-1,1)X alias(0,0,1)A alias(0,0,100)A
+            isAlias(6,2,1)X isAlias(-1,1,0)X isAlias(0,1,1)A isAlias(0,100,1)A isAlias(0,2,0)A isAlias(0,2,101)A
+            aliases(1,1)A aliases(100,1)A aliases(2,0)A aliases(2,101)A
+            blockPower(6,0,1)X blockPower(-1,-1,0)X blockPower(0,-1,1)A blockPower(0,32,1)A blockPower(0,0,0)A
+            blockPower(0,0,33)A blockBest(-1,1)A blockBest(32,1)A blockBest(0,0)A blockBest(0,33)A
+            path(3)A path(33)A trackScore(3)A trackScore(33)A trackCell(4,8)X trackCell(4,-1)X trackCell(32,1)X
+            trackCell(3,0)A trackCell(33,0)A trackCell(0,0)A trackCell(-4,9)A
+            movingPower(6,0,0)X movingPower(-1,1000,0)X movingPower(0,1000,0)A movingPower(0,-1000,0)A
+            movingPower(0,0,1000)A movingPower(0,0,-1000)A bestVelocity(6,1,0)X bestVelocity(-1,0,5)X
+            bestVelocity(0,0,0)A bestVelocity(0,100,0)A bestVelocity(0,1,-1)A bestVelocity(0,1,5)A
+            correlation(2,0,0)X correlation(0,2,0)X correlation(-1,0,32)X correlation(0,-1,0)X correlation(0,0,-1)A
+            correlation(0,0,32)A bestLag(2,0,0)X bestLag(0,2,0)X bestLag(-1,0,32)X bestLag(0,-1,0)X bestLag(0,0,-1)A
+            bestLag(0,0,32)A level(2)X level(-1)X loudest(2)X loudest(-1)X mapByte(0)X mapByte(-1)X
+            pointBest(6,2)X pointBest(-1,1)X pointBest(0,1)A pointBest(0,100)A pointPower(6,0,2)X pointPower(0,6,2)X
+            pointPower(-1,0,1)X pointPower(0,-1,2)X pointPower(0,0,1)A pointPower(0,0,100)A
+            bestWithout(2)X bestWithout(-1)X bestIfOff(1)X bestIfOff(-1)X mute(2,1)X mute(-1,0)X
+            setWeight(2,0)X setWeight(-1,10)X setWeight(0,10)A setWeight(0,-1)A setOn(1,0)X setOn(-1,1)X
+            moveSource(1,0,0)X moveSource(-1,2001,0)X moveSource(0,2001,0)A moveSource(0,-2001,0)A
+            moveSource(0,0,2001)A moveSource(0,0,-2001)A setVelocity(1,0,0)X setVelocity(-1,1000,0)X
+            setVelocity(0,1000,0)A setVelocity(0,-1000,0)A setVelocity(0,0,1000)A setVelocity(0,0,-1000)A
+            clean(0)A clean(101)A save(2)X save(-1)X restore(2)X restore(-1)X restore(0)S restore(1)S undo()S
+            load(1)X load(-1)X load(0)A
+            """;
+
+    /** What needs no camera, or tells of something else first. */
+    private static final Set<String> ELSEWHERE = Set.of("append", "load", "parseError", "errorPosition", "buffered",
+            "mics", "columns", "rows", "sources", "samples", "mapByte", "undoable", "restore");
+
+    public static void main(String[] args) throws Exception {
+        Set<String> met = new TreeSet<>();
+        for (String call : CALLS.strip().split("\\s+")) {
+            String name = call.substring(0, call.indexOf('('));
+            met.add(name);
+            AcousticCamera bare = new AcousticCamera();
+            AcousticCamera full = Check.loaded(TEXT);
+            Check.due(call, answer(full, call), call.substring(call.length() - 1));
+            Check.due(call + " changes nothing", full.undoable() + full.best() + full.sample(0, 0), 10);
+            if (!ELSEWHERE.contains(name)) {
+                Check.due(call + " without a camera", answer(bare, call), "S");
+            }
+        }
+        for (Method method : AcousticCamera.class.getMethods()) {
+            boolean own = method.getDeclaringClass() == AcousticCamera.class;
+            if (own && !ELSEWHERE.contains(method.getName()) && method.getExceptionTypes().length > 0) {
+                String zeros = String.join(",", java.util.Collections.nCopies(method.getParameterCount(), "0"));
+                String call = method.getName() + "(" + zeros + ") ";
+                Check.due(call + "without a camera", answer(new AcousticCamera(), call), "S");
+                boolean hasWrongInputs = method.getParameterCount() > 0;
+                Check.due(call + "is met", met.contains(method.getName()), hasWrongInputs || met.contains("undo")
+                        && method.getName().equals("undo"));
+            }
+        }
+        Check.end();
+    }
+
+    private static String answer(AcousticCamera camera, String call) throws Exception {
+        String name = call.substring(0, call.indexOf('('));
+        String inside = call.substring(call.indexOf('(') + 1, call.indexOf(')'));
+        String[] numbers = inside.isEmpty() ? new String[0] : inside.split(",");
+        Method method = Arrays.stream(AcousticCamera.class.getMethods())
+                .filter(one -> one.getName().equals(name)).findFirst().get();
+        Object[] values = new Object[numbers.length];
+        for (int i = 0; i < numbers.length; i++) {
+            int value = Integer.parseInt(numbers[i]);
+            values[i] = method.getParameterTypes()[i] == boolean.class ? (Object) (value == 1) : (Object) value;
+        }
+        try {
+            return "" + method.invoke(camera, values);
+        } catch (InvocationTargetException e) {
+            return switch (e.getCause().getClass().getSimpleName()) {
+                case "IllegalStateException" -> "S";
+                case "IndexOutOfBoundsException" -> "X";
+                case "IllegalArgumentException" -> "A";
+                default -> e.getCause().toString();
+            };
+        }
+    }
+}
