@@ -163,10 +163,13 @@ public final class ParseTest {
         both(";mic ", "-501", "-500", " 0 1", 1);
         both(";mic ", "501", "500", " 0 1", 0);
         both(";mic 0 ", "-501", "-500", " 1", 1);
+        both(";mic 0 ", "501", "500", " 1", 0);
         both(";mic 0 0 ", "0", "1", "", 0);
         both(";mic 0 0 ", "10", "9", "", 0);
         map("map ", "-1000", "-999", " 0 1 1 1", 1);
+        map("map ", "1000", "999", " 0 1 1 1", 0);
         map("map 0 ", "1000", "999", " 1 1 1", 0);
+        map("map 0 ", "-1000", "-999", " 1 1 1", 1);
         map("map 0 0 ", "0", "1", " 1 1", 0);
         map("map 0 0 ", "100", "99", " 1 1", 0);
         map("map 0 0 1 ", "0", "1", " 1", 0);
@@ -174,9 +177,13 @@ public final class ParseTest {
         map("map 0 0 1 1 ", "0", "1", "", 0);
         map("map 0 0 1 1 ", "13", "12", "", 0);
         both(";source noise ", "-2001", "-2000", " 0 0 0 1 2 0", 1);
+        both(";source noise ", "2001", "2000", " 0 0 0 1 2 0", 0);
         both(";source noise 0 ", "2001", "2000", " 0 0 1 2 0", 0);
+        both(";source noise 0 ", "-2001", "-2000", " 0 0 1 2 0", 1);
         both(";source noise 0 0 ", "-1000", "-999", " 0 1 2 0", 1);
+        both(";source noise 0 0 ", "1000", "999", " 0 1 2 0", 0);
         both(";source noise 0 0 0 ", "1000", "999", " 1 2 0", 0);
+        both(";source noise 0 0 0 ", "-1000", "-999", " 1 2 0", 1);
         both(";source noise 0 0 0 0 ", "0", "1", " 2 0", 0);
         both(";source noise 0 0 0 0 ", "1000", "999", " 2 0", 0);
         both(";source noise 0 0 0 0 1 ", "1", "2", " 0", 0);
@@ -231,11 +238,11 @@ public final class ParseTest {
         works(GOOD + ";zone 0 0 0 0".repeat(4));
         fails(GOOD + ";zone 0 0 0 0".repeat(4) + ";", "zone", 4);
         works(GOOD + ";filter 1 -2 3 -4 5");
-        fails(GOOD + ";filter 1 -2 3 -4 5 ", "6", 4);
+        fails(GOOD + ";filter 1 -2 3 -4 5 ", "9", 4);
         fails(GOOD + ";filter 1 -2 3 -4 5 ", "-6", 4);
         fails(GOOD + ";filter 1 -2 3 -4 5 ", "- x", 4);
         works(GOOD + ";shade 1 2 3 4 5 6 7 8 9 0 1 2");
-        fails(GOOD + ";shade 1 2 3 4 5 6 7 8 9 0 1 2 ", "3", 4);
+        fails(GOOD + ";shade 1 2 3 4 5 6 7 8 9 0 1 2 ", "9", 4);
     }
 
     private static void missing() {

@@ -134,6 +134,7 @@ public final class PromiseTest {
         samples("source square 0 0 0 0 25 4 0;filter 1 1", 20, 20, 0, -20, 0);
         samples("source square 0 0 0 0 5 4 0 from 2", 0, 0, -5, -5, 5);
         samples("source square 75 0 0 0 10 2 0;fade 3", zeros(25, 1, -1, 1));
+        samples("source square 75 0 0 0 60 2 0;fade 1", zeros(25, 2, -2, 2));
         samples("source pulse 75 0 0 0 10 99 0", zeros(25, 10, 0));
         samples("source pulse 500 0 0 0 10 99 0;wall 250 100;wall 212 50", 10, 0, 0, 0);
         samples("source pulse -500 0 0 0 10 99 0;wall -250 100;wall -250 50", 15, 0, 0, 0);
@@ -240,6 +241,18 @@ public final class PromiseTest {
         Check.due("alias(0, 0, 3)", halves.alias(0, 0, 3), 2);
         Check.due("alias(2, 0, 3)", halves.alias(2, 0, 3), 1);
         Check.due("alias(2, 0, 5)", halves.alias(2, 0, 5), 2);
+        // two microphones with delays 25, 0, 25 and one of weight 0 with 11, 3, 41: windows 175, 197 and 159
+        AcousticCamera thirds = Check.loaded("camera distance 100 step 1 samples 200 limit 9999;mic 75 0 1;mic 75 0 1"
+                + ";mic 50 0 1;shade 1 0 0;map 0 0 75 3 1;source pulse 75 0 0 0 999 99 69");
+        Check.due("best()", thirds.best(), 2);
+        Check.due("peaks()", thirds.peaks(), 2);
+        Check.due("peakAt(0), the greater power first", thirds.peakAt(0), 2);
+        Check.due("peakAt(1)", thirds.peakAt(1), 0);
+        Check.due("isAlias(0, 7, 66)", thirds.isAlias(0, 7, 66), true);
+        Check.due("isAlias(0, 7, 67)", thirds.isAlias(0, 7, 67), false);
+        Check.due("isAlias(0, 5, 100)", thirds.isAlias(0, 5, 100), true);
+        Check.due("aliases(7, 66)", thirds.aliases(7, 66), 1);
+        Check.due("aliases(7, 67)", thirds.aliases(7, 67), 0);
     }
 
     private static void blocks() {
@@ -345,6 +358,8 @@ public final class PromiseTest {
         Check.due("mapByte(0), what writeMap wrote is no state", x.mapByte(0), (int) '0');
         x.load(Check.put(x, HEAD + ";mic 0 0 1;map 0 0 1 1 3;source pulse 0 0 0 0 99 4 0"));
         map(x, "9;9;9");
+        x.load(Check.put(x, HEAD + ";mic 0 0 1;map 0 0 1 12 12"));
+        map(x, "000000000000;".repeat(11) + "000000000000");
         Check.noIndex("mapByte(-1)", () -> x.mapByte(-1));
     }
 
