@@ -281,8 +281,10 @@ public final class ModelTest {
             case 2 -> tokens.remove(at);
             case 3 -> tokens.addAll(Collections.nCopies(random.nextBoolean() ? 1 : 1 + random.nextInt(13), piece));
             default -> {
-                int cut = random.nextInt(text.length());
-                return text.substring(0, cut) + (random.nextBoolean() ? "" : text.substring(cut + 1));
+                // a text spoiled before may be empty
+                int cut = random.nextInt(Math.max(text.length(), 1));
+                String rest = text.substring(Math.min(cut + 1, text.length()));
+                return text.substring(0, cut) + (random.nextBoolean() ? "" : rest);
             }
         }
         return String.join(" ", tokens);
