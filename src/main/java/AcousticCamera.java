@@ -31,6 +31,11 @@ public final class AcousticCamera {
     private static final int MOST_WEIGHT = 9;
     private static final int PROBE_AMP = 100;
 
+    private static final int PART_BITS = 62;
+    private static final long PART_MASK = 0x3fffffffffffffffL;
+    private static final int HALF_BITS = 31;
+    private static final long HALF_MASK = 0x7fffffffL;
+
     private static final int WORD = 1;
     private static final int NUMBER = 2;
     private static final int MINUS = 3;
@@ -49,8 +54,8 @@ public final class AcousticCamera {
     private static final int PULSE = 2;
     private static final int NOISE = 3;
 
-    private final Input input = new Input();
-    private final Parser parser = new Parser();
+    private final Text text = new Text();
+    private final Parser parser = new Parser(text);
     private final Recorder recorder = new Recorder();
     private final Blocks blocks = new Blocks();
     private final PowerMap powers = new PowerMap();
@@ -61,7 +66,8 @@ public final class AcousticCamera {
     private final State[] slots = new State[SLOTS];
     private final boolean[] saved = new boolean[SLOTS];
     private final int[] pointDelays = new int[MOST_MICS];
-    private final long[] levels = new long[MOST_MICS];
+    /** What a call works out, by numbers of its own; nothing of it is kept for a later call. */
+    private final Wides numbers = new Wides(MOST_MICS);
     private final int[] mapText = new int[MOST_CELLS + MOST_SIDE - 1];
     private Scene scene = new Scene();
     private Scene spare = new Scene();
@@ -81,23 +87,23 @@ public final class AcousticCamera {
     // ---- input
 
     public int append(int a, int b, int c, int d, int e) {
-        if (input.length + 20 > MOST_BYTES) {
+        if (text.length + 20 > MOST_BYTES) {
             return NONE;
         }
-        input.addWord(a);
-        input.addWord(b);
-        input.addWord(c);
-        input.addWord(d);
-        input.addWord(e);
-        return input.length;
+        text.addWord(a);
+        text.addWord(b);
+        text.addWord(c);
+        text.addWord(d);
+        text.addWord(e);
+        return text.length;
     }
 
     public int load(int n) throws IndexOutOfBoundsException, IllegalArgumentException {
-        if (n < 0 || n > input.length) {
+        if (n < 0 || n > text.length) {
             throw new IndexOutOfBoundsException();
         }
-        input.length = 0;
-        parser.parse(input.bytes, n, spare);
+        text.length = 0;
+        parser.parse(n, spare);
         Scene old = scene;
         scene = spare;
         spare = old;
@@ -114,7 +120,7 @@ public final class AcousticCamera {
     }
 
     public int buffered() {
-        return input.length;
+        return text.length;
     }
 
     // ---- microphones, cells, sources
@@ -233,7 +239,7 @@ public final class AcousticCamera {
         needCamera();
         needMic(mic);
         needRange(t, 0, scene.samples - 1);
-        return now.recordings[mic][t];
+        return (int) now.recordings[mic][t];
     }
 
     public int beam(int cell, int t)
@@ -241,13 +247,13 @@ public final class AcousticCamera {
         needCamera();
         needCell(cell);
         needRange(t, 0, now.windowOf(scene.delays[cell]) - 1);
-        return now.beamOf(scene.delays[cell], t);
+        return (int) now.beamOf(scene.delays[cell], t);
     }
 
     public long power(int cell) throws IllegalStateException, IndexOutOfBoundsException {
         needCamera();
         needCell(cell);
-        return powersNow().of[cell];
+        return powersNow().of.value(cell);
     }
 
     public long powerAt(int x, int y) throws IllegalStateException, IllegalArgumentException {
@@ -255,7 +261,8 @@ public final class AcousticCamera {
         needRange(x, -FARTHEST, FARTHEST);
         needRange(y, -FARTHEST, FARTHEST);
         scene.delaysFrom(x, y, pointDelays);
-        return now.powerOf(pointDelays);
+        now.powerOf(pointDelays, numbers, 0);
+        return numbers.value(0);
     }
 
     public int best() throws IllegalStateException {
@@ -265,12 +272,15 @@ public final class AcousticCamera {
 
     public long bestPower() throws IllegalStateException {
         needCamera();
-        return powersNow().greatest();
+        PowerMap map = powersNow();
+        return map.of.value(map.best);
     }
 
     public long meanPower() throws IllegalStateException {
         needCamera();
-        return quotient(powersNow().sumIn(scene.grid.whole, scene.grid), scene.grid.cells());
+        powersNow().sumIn(scene.grid.whole, scene.grid, numbers, 0);
+        numbers.divide(0, scene.grid.cells());
+        return numbers.value(0);
     }
 
     public int peaks() throws IllegalStateException {
@@ -294,20 +304,22 @@ public final class AcousticCamera {
     public long zonePower(int zone) throws IllegalStateException, IndexOutOfBoundsException {
         needCamera();
         needIndex(zone, scene.grid.zoneCount);
-        return powersNow().sumIn(scene.grid.zones[zone], scene.grid);
+        powersNow().sumIn(scene.grid.zones[zone], scene.grid, numbers, 0);
+        return numbers.value(0);
     }
 
     public int zoneBest(int zone) throws IllegalStateException, IndexOutOfBoundsException {
         needCamera();
         needIndex(zone, scene.grid.zoneCount);
-        return scene.grid.bestIn(scene.grid.zones[zone], powersNow().of);
+        return scene.grid.bestIn(scene.grid.zones[zone], powersNow().of, 0);
     }
 
     public float contrast() throws IllegalStateException {
         needCamera();
         PowerMap map = powersNow();
-        long second = map.second(scene.grid.cells());
-        return second == 0L ? 0.0f : (float) map.greatest() / (float) second;
+        int second = map.second(scene.grid.cells());
+        float divisor = second == NONE ? 0.0f : map.of.asFloat(second);
+        return divisor == 0.0f ? 0.0f : map.of.asFloat(map.best) / divisor;
     }
 
     // ---- aliases
@@ -352,7 +364,8 @@ public final class AcousticCamera {
         needCell(cell);
         needRange(from, 0, scene.samples - 1);
         needRange(length, 1, scene.samples);
-        return now.blockPowerOf(scene.delays[cell], from, length);
+        now.blockPowerOf(scene.delays[cell], from, length, numbers, 0);
+        return numbers.value(0);
     }
 
     public int blockBest(int from, int length) throws IllegalStateException, IllegalArgumentException {
@@ -372,7 +385,7 @@ public final class AcousticCamera {
         needCamera();
         needRange(length, LEAST_BLOCK, scene.samples);
         blocks.score(scene, now, length);
-        return blocks.scores[0][blocks.trackCellIn(scene.grid, 0)];
+        return blocks.scores.value(blocks.trackCellIn(scene.grid, 0));
     }
 
     public int trackCell(int length, int block)
@@ -393,7 +406,8 @@ public final class AcousticCamera {
         needCell(cell);
         needRange(vx, -FASTEST, FASTEST);
         needRange(vy, -FASTEST, FASTEST);
-        return powerOnTheMove(cell, vx, vy);
+        powerOnTheMove(cell, vx, vy, 0);
+        return numbers.value(0);
     }
 
     public int bestVelocity(int cell, int step, int most)
@@ -402,13 +416,12 @@ public final class AcousticCamera {
         needCell(cell);
         needRange(step, 1, 99);
         needRange(most, 0, 4);
-        int best = 0;
-        long greatest = -1L;
+        int best = NONE;
         for (int i = -most; i <= most; i++) {
             for (int k = -most; k <= most; k++) {
-                long power = powerOnTheMove(cell, step * i, step * k);
-                if (power > greatest) {
-                    greatest = power;
+                powerOnTheMove(cell, step * i, step * k, 1);
+                if (best == NONE || numbers.compare(1, 0) > 0) {
+                    numbers.set(0, numbers, 1);
                     best = 100 * (i + most) + k + most;
                 }
             }
@@ -424,7 +437,8 @@ public final class AcousticCamera {
         needMic(mic);
         needMic(other);
         needRange(lag, 0, scene.samples - 1);
-        return now.productSum(mic, other, lag);
+        now.productSum(mic, other, lag, numbers, 0);
+        return numbers.value(0);
     }
 
     public int bestLag(int mic, int other, int most)
@@ -434,11 +448,11 @@ public final class AcousticCamera {
         needMic(other);
         needRange(most, 0, scene.samples - 1);
         int best = 0;
-        long greatest = now.productSum(mic, other, 0);
+        now.productSum(mic, other, 0, numbers, 0);
         for (int lag = 1; lag <= most; lag++) {
-            long sum = now.productSum(mic, other, lag);
-            if (sum > greatest) {
-                greatest = sum;
+            now.productSum(mic, other, lag, numbers, 1);
+            if (numbers.compare(1, 0) > 0) {
+                numbers.set(0, numbers, 1);
                 best = lag;
             }
         }
@@ -448,16 +462,17 @@ public final class AcousticCamera {
     public long level(int mic) throws IllegalStateException, IndexOutOfBoundsException {
         needCamera();
         needMic(mic);
-        return levelOf(mic);
+        measureLevel(mic);
+        return numbers.value(mic);
     }
 
     public int loudest(int rank) throws IllegalStateException, IndexOutOfBoundsException {
         needCamera();
         needIndex(rank, scene.micCount);
         for (int mic = 0; mic < scene.micCount; mic++) {
-            levels[mic] = levelOf(mic);
+            measureLevel(mic);
         }
-        return ranked(levels, scene.micCount, rank);
+        return numbers.ranked(scene.micCount, rank);
     }
 
     // ---- the map as a text
@@ -465,13 +480,12 @@ public final class AcousticCamera {
     public int writeMap() throws IllegalStateException {
         needCamera();
         PowerMap map = powersNow();
-        long greatest = map.greatest();
         mapLength = 0;
         for (int cell = 0; cell < scene.grid.cells(); cell++) {
             if (cell > 0 && scene.grid.columnOf(cell) == 0) {
                 addMapByte(';');
             }
-            addMapByte('0' + (int) quotient(9L * map.of[cell], greatest));
+            addMapByte('0' + map.digit(cell, numbers));
         }
         return mapLength;
     }
@@ -499,7 +513,8 @@ public final class AcousticCamera {
         needCell(other);
         needRange(period, LEAST_PERIOD, MOST_PERIOD);
         recordPoint(cell, period);
-        return trial.powerOf(scene.delays[other]);
+        trial.powerOf(scene.delays[other], numbers, 0);
+        return numbers.value(0);
     }
 
     public int bestWithout(int mic) throws IllegalStateException, IndexOutOfBoundsException {
@@ -725,20 +740,21 @@ public final class AcousticCamera {
         return most;
     }
 
-    private long powerOnTheMove(int cell, int vx, int vy) {
+    private void powerOnTheMove(int cell, int vx, int vy, int place) {
         int x = scene.grid.centreX(cell);
         int y = scene.grid.centreY(cell);
-        long sum = 0L;
+        numbers.clear(place);
         for (int t = 0; t < scene.samples; t++) {
             scene.delaysFrom(moved(x, vx, t), moved(y, vy, t), pointDelays);
             long value = now.beamOf(pointDelays, t);
-            sum += value * value;
+            numbers.addProduct(place, value, value);
         }
-        return quotient(sum, scene.samples);
+        numbers.divide(place, scene.samples);
     }
 
-    private long levelOf(int mic) {
-        return quotient(now.productSum(mic, mic, 0), scene.samples);
+    private void measureLevel(int mic) {
+        now.productSum(mic, mic, 0, numbers, mic);
+        numbers.divide(mic, scene.samples);
     }
 
     private void addMapByte(int value) {
@@ -746,22 +762,6 @@ public final class AcousticCamera {
             mapText[mapLength] = value;
             mapLength++;
         }
-    }
-
-    /** The index with the given rank among the values, greater ones first, of equal ones the smaller index. */
-    private static int ranked(long[] values, int count, int rank) {
-        for (int i = 0; i < count; i++) {
-            int before = 0;
-            for (int k = 0; k < count; k++) {
-                if (values[k] > values[i] || (values[k] == values[i] && k < i)) {
-                    before++;
-                }
-            }
-            if (before == rank) {
-                return i;
-            }
-        }
-        return NONE;
     }
 
     private static int moved(int start, int velocity, int t) {
@@ -789,10 +789,112 @@ public final class AcousticCamera {
         return root;
     }
 
-    /** The bytes that wait to be parsed. */
-    private static final class Input {
+    /**
+     * Whole numbers that may be too great for a long, as sums of squares are after many cleanings: a number is
+     * high * 2^62 + low, with low from 0 to 2^62 - 1. Sums are exact as long as no sample is beyond 2^48.
+     */
+    private static final class Wides {
+        private final long[] high;
+        private final long[] low;
+
+        Wides(int count) {
+            high = new long[Math.max(count, 0)];
+            low = new long[Math.max(count, 0)];
+        }
+
+        void clear(int i) {
+            high[i] = 0L;
+            low[i] = 0L;
+        }
+
+        void set(int i, Wides other, int k) {
+            high[i] = other.high[k];
+            low[i] = other.low[k];
+        }
+
+        void add(int i, Wides other, int k) {
+            addParts(i, other.high[k], other.low[k]);
+        }
+
+        void addProduct(int i, long a, long b) {
+            long x = Math.abs(a);
+            long y = Math.abs(b);
+            long middle = (x >>> HALF_BITS) * (y & HALF_MASK) + (x & HALF_MASK) * (y >>> HALF_BITS);
+            long bottom = (x & HALF_MASK) * (y & HALF_MASK) + ((middle & HALF_MASK) << HALF_BITS);
+            long highPart = (x >>> HALF_BITS) * (y >>> HALF_BITS) + (middle >>> HALF_BITS) + (bottom >>> PART_BITS);
+            long lowPart = bottom & PART_MASK;
+            if ((a < 0L) == (b < 0L)) {
+                addParts(i, highPart, lowPart);
+            } else {
+                // the complement: -(h * 2^62 + l) is (-h - 1) * 2^62 + (2^62 - l), and addParts carries from there
+                addParts(i, -highPart - 1L, PART_MASK + 1L - lowPart);
+            }
+        }
+
+        private void addParts(int i, long highPart, long lowPart) {
+            long sum = low[i] + lowPart;
+            high[i] += highPart + (sum >>> PART_BITS);
+            low[i] = sum & PART_MASK;
+        }
+
+        /** Rounded down, for numbers that are not negative; a divisor of 0 changes nothing. */
+        void divide(int i, int divisor) {
+            if (divisor <= 0) {
+                return;
+            }
+            long middle = ((high[i] % divisor) << HALF_BITS) + (low[i] >>> HALF_BITS);
+            long bottom = ((middle % divisor) << HALF_BITS) + (low[i] & HALF_MASK);
+            high[i] /= divisor;
+            low[i] = ((middle / divisor) << HALF_BITS) + bottom / divisor;
+        }
+
+        /** Negative, 0 or positive, as number i is less than, equal to or greater than number k. */
+        int compare(int i, int k) {
+            return high[i] == high[k] ? Long.compare(low[i], low[k]) : Long.compare(high[i], high[k]);
+        }
+
+        boolean isZero(int i) {
+            return high[i] == 0L && low[i] == 0L;
+        }
+
+        /** The number, if it fits a long. */
+        long value(int i) {
+            return (high[i] << PART_BITS) + low[i];
+        }
+
+        float asFloat(int i) {
+            return (float) high[i] * (float) (PART_MASK + 1L) + (float) low[i];
+        }
+
+        /** The place of the given rank among the first numbers, greater ones first, of equal ones the smaller place. */
+        int ranked(int count, int rank) {
+            for (int i = 0; i < count; i++) {
+                int before = 0;
+                for (int k = 0; k < count; k++) {
+                    int order = compare(k, i);
+                    if (order > 0 || (order == 0 && k < i)) {
+                        before++;
+                    }
+                }
+                if (before == rank) {
+                    return i;
+                }
+            }
+            return NONE;
+        }
+    }
+
+    /**
+     * The bytes that wait to be parsed, and the tokens that they are cut into; the last one is END. A run or byte that
+     * is no token is BROKEN.
+     */
+    private static final class Text {
         final int[] bytes = new int[MOST_BYTES];
         int length;
+        final int[] kinds = new int[MOST_BYTES + 1];
+        final int[] starts = new int[MOST_BYTES + 1];
+        final int[] ends = new int[MOST_BYTES + 1];
+        int count;
 
         void addWord(int word) {
             for (int shift = 24; shift >= 0; shift -= 8) {
@@ -802,32 +904,25 @@ public final class AcousticCamera {
                 }
             }
         }
-    }
 
-    /** A text cut into tokens; the last one is END. A run or byte that is no token is BROKEN. */
-    private static final class Tokens {
-        final int[] kinds = new int[MOST_BYTES + 1];
-        final int[] starts = new int[MOST_BYTES + 1];
-        final int[] ends = new int[MOST_BYTES + 1];
-        int count;
-
-        void cut(int[] bytes, int n) {
+        /** Cuts the first n bytes. */
+        void cut(int n) {
             count = 0;
             int at = 0;
             for (int i = 0; i < n && at < n; i++) {
-                at = cutOne(bytes, n, at);
+                at = cutOne(n, at);
             }
             add(END, n, n);
         }
 
-        private int cutOne(int[] bytes, int n, int at) {
+        private int cutOne(int n, int at) {
             int first = bytes[at];
             int end = at + 1;
             if (first >= 'a' && first <= 'z') {
-                end = runEnd(bytes, n, at, 'a', 'z');
+                end = runEnd(n, at, 'a', 'z');
                 add(end - at <= MOST_LETTERS ? WORD : BROKEN, at, end);
             } else if (first >= '0' && first <= '9') {
-                end = runEnd(bytes, n, at, '0', '9');
+                end = runEnd(n, at, '0', '9');
                 add(end - at <= MOST_DIGITS ? NUMBER : BROKEN, at, end);
             } else if (first == '-') {
                 add(MINUS, at, end);
@@ -839,7 +934,7 @@ public final class AcousticCamera {
             return end;
         }
 
-        private static int runEnd(int[] bytes, int n, int at, int least, int most) {
+        private int runEnd(int n, int at, int least, int most) {
             for (int i = at; i < n; i++) {
                 if (bytes[i] < least || bytes[i] > most) {
                     return i;
@@ -860,19 +955,22 @@ public final class AcousticCamera {
 
     /** Reads a text into a scene, or throws at the first error and tells its code and position. */
     private static final class Parser {
-        private final Tokens tokens = new Tokens();
-        private final int[] text = new int[MOST_BYTES];
+        private final Text text;
         private int at;
         int code;
         int position = NONE;
 
-        void parse(int[] bytes, int n, Scene scene) {
-            System.arraycopy(bytes, 0, text, 0, MOST_BYTES);
-            tokens.cut(text, n);
+        Parser(Text text) {
+            this.text = text;
+        }
+
+        /** Reads the first n bytes of the text. */
+        void parse(int n, Scene scene) {
+            text.cut(n);
             at = 0;
             scene.clear();
             parseHead(scene);
-            for (int i = 0; i < tokens.count && kind() != END; i++) {
+            for (int i = 0; i < text.count && kind() != END; i++) {
                 if (kind() != SEMICOLON) {
                     failAt(at, NOT_ALLOWED);
                 }
@@ -1074,13 +1172,13 @@ public final class AcousticCamera {
         }
 
         private int kind() {
-            return at < tokens.count ? tokens.kinds[at] : END;
+            return at < text.count ? text.kinds[at] : END;
         }
 
         private int value() {
             int value = 0;
-            for (int i = tokens.starts[at]; i < tokens.ends[at]; i++) {
-                value = 10 * value + text[i] - '0';
+            for (int i = text.starts[at]; i < text.ends[at]; i++) {
+                value = 10 * value + text.bytes[i] - '0';
             }
             return value;
         }
@@ -1089,13 +1187,13 @@ public final class AcousticCamera {
             if (kind() != WORD) {
                 return false;
             }
-            int start = tokens.starts[at];
-            int length = tokens.ends[at] - start;
+            int start = text.starts[at];
+            int length = text.ends[at] - start;
             if (length != word.length()) {
                 return false;
             }
             for (int i = 0; i < length; i++) {
-                if (text[start + i] != word.charAt(i)) {
+                if (text.bytes[start + i] != word.charAt(i)) {
                     return false;
                 }
             }
@@ -1109,7 +1207,7 @@ public final class AcousticCamera {
 
         private void failAt(int token, int error) {
             code = error;
-            position = token >= 0 && token < tokens.count ? tokens.starts[token] : 0;
+            position = token >= 0 && token < text.count ? text.starts[token] : 0;
             throw new IllegalArgumentException();
         }
     }
@@ -1209,13 +1307,13 @@ public final class AcousticCamera {
             return around;
         }
 
-        /** The smallest cell of those of an area that have the greatest value. */
-        int bestIn(int[] area, long[] values) {
+        /** The smallest cell of those of an area that have the greatest value; the values begin at start. */
+        int bestIn(int[] area, Wides values, int start) {
             int best = area[1] * columns + area[0];
             for (int row = area[1]; row <= area[3]; row++) {
                 for (int column = area[0]; column <= area[2]; column++) {
                     int cell = row * columns + column;
-                    if (values[cell] > values[best]) {
+                    if (values.compare(start + cell, start + best) > 0) {
                         best = cell;
                     }
                 }
@@ -1312,7 +1410,8 @@ public final class AcousticCamera {
         final int[] y = new int[MOST_SOURCES];
         final int[] vx = new int[MOST_SOURCES];
         final int[] vy = new int[MOST_SOURCES];
-        final int[][] recordings = new int[MOST_MICS][MOST_SAMPLES];
+        /** No bound holds them in once they are cleaned. */
+        final long[][] recordings = new long[MOST_MICS][MOST_SAMPLES];
 
         void begin(Scene scene) {
             micCount = scene.micCount;
@@ -1392,8 +1491,8 @@ public final class AcousticCamera {
         }
 
         /** Samples beyond the recordings count as 0. */
-        int beamOf(int[] delays, int t) {
-            int sum = 0;
+        long beamOf(int[] delays, int t) {
+            long sum = 0L;
             for (int mic = 0; mic < micCount; mic++) {
                 int at = t + delays[mic];
                 if (!muted[mic] && at >= 0 && at < sampleCount) {
@@ -1403,39 +1502,40 @@ public final class AcousticCamera {
             return sum;
         }
 
-        private long squareSum(int[] delays, int from, int end) {
-            long sum = 0L;
+        private void squareSum(int[] delays, int from, int end, Wides out, int place) {
+            out.clear(place);
             for (int t = from; t < end; t++) {
                 long value = beamOf(delays, t);
-                sum += value * value;
+                out.addProduct(place, value, value);
             }
-            return sum;
         }
 
-        long powerOf(int[] delays) {
+        /** A window of 0 leaves the sum, which is 0 then. */
+        void powerOf(int[] delays, Wides out, int place) {
             int end = windowOf(delays);
-            return quotient(squareSum(delays, 0, end), end);
+            squareSum(delays, 0, end, out, place);
+            out.divide(place, end);
         }
 
-        long blockPowerOf(int[] delays, int from, int length) {
+        void blockPowerOf(int[] delays, int from, int length, Wides out, int place) {
             int end = Math.min(from + length, windowOf(delays));
-            return quotient(squareSum(delays, from, end), length);
+            squareSum(delays, from, end, out, place);
+            out.divide(place, length);
         }
 
-        long productSum(int mic, int other, int lag) {
-            long sum = 0L;
+        void productSum(int mic, int other, int lag, Wides out, int place) {
+            out.clear(place);
             for (int t = 0; t + lag < sampleCount; t++) {
-                sum += (long) recordings[mic][t] * recordings[other][t + lag];
+                out.addProduct(place, recordings[mic][t], recordings[other][t + lag]);
             }
-            return sum;
         }
 
         /** The samples that a beam is made of are its own at each t, so no beam is changed before it is subtracted. */
         void subtractBeam(int[] delays, int percent) {
-            long whole = 100L * activeWeight();
+            int whole = 100 * activeWeight();
             int end = windowOf(delays);
             for (int t = 0; t < end; t++) {
-                int part = (int) quotient((long) beamOf(delays, t) * percent, whole);
+                long part = quotient(beamOf(delays, t) * percent, whole);
                 for (int mic = 0; mic < micCount; mic++) {
                     int at = t + delays[mic];
                     if (!muted[mic] && at >= 0 && at < sampleCount) {
@@ -1534,50 +1634,45 @@ public final class AcousticCamera {
     private static final class PowerMap {
         /** For the one who keeps the map: whether it is still that of the state. */
         boolean known;
-        final long[] of = new long[MOST_CELLS];
+        final Wides of = new Wides(MOST_CELLS);
         int best;
         int peakCount;
         private final int[] peakCells = new int[MOST_CELLS];
-        private final long[] peakPowers = new long[MOST_CELLS];
+        private final Wides peakPowers = new Wides(MOST_CELLS);
 
         void measure(Scene scene, State state) {
             for (int cell = 0; cell < scene.grid.cells(); cell++) {
-                of[cell] = state.powerOf(scene.delays[cell]);
+                state.powerOf(scene.delays[cell], of, cell);
             }
-            best = scene.grid.bestIn(scene.grid.whole, of);
+            best = scene.grid.bestIn(scene.grid.whole, of, 0);
             peakCount = 0;
             for (int cell = 0; cell < scene.grid.cells(); cell++) {
                 if (standsOut(cell, scene.grid)) {
                     peakCells[peakCount] = cell;
-                    peakPowers[peakCount] = of[cell];
+                    peakPowers.set(peakCount, of, cell);
                     peakCount++;
                 }
             }
         }
 
-        long greatest() {
-            return of[best];
-        }
-
-        /** The greatest power of a cell other than the best one; 0 if there is none. */
-        long second(int cells) {
-            long second = 0L;
+        /** The cell with the greatest power of those other than the best one; NONE if there is none. */
+        int second(int cells) {
+            int second = NONE;
             for (int cell = 0; cell < cells; cell++) {
-                if (cell != best) {
-                    second = Math.max(second, of[cell]);
+                if (cell != best && (second == NONE || of.compare(cell, second) > 0)) {
+                    second = cell;
                 }
             }
             return second;
         }
 
-        long sumIn(int[] area, Grid grid) {
-            long sum = 0L;
+        void sumIn(int[] area, Grid grid, Wides out, int place) {
+            out.clear(place);
             for (int row = area[1]; row <= area[3]; row++) {
                 for (int column = area[0]; column <= area[2]; column++) {
-                    sum += of[row * grid.columns + column];
+                    out.add(place, of, row * grid.columns + column);
                 }
             }
-            return sum;
         }
 
         boolean standsOut(int cell, Grid grid) {
@@ -1585,7 +1680,7 @@ public final class AcousticCamera {
             for (int row = area[1]; row <= area[3]; row++) {
                 for (int column = area[0]; column <= area[2]; column++) {
                     int other = row * grid.columns + column;
-                    if (other != cell && of[other] >= of[cell]) {
+                    if (other != cell && of.compare(other, cell) >= 0) {
                         return false;
                     }
                 }
@@ -1594,20 +1689,34 @@ public final class AcousticCamera {
         }
 
         int peakRanked(int rank) {
-            int place = ranked(peakPowers, peakCount, rank);
+            int place = peakPowers.ranked(peakCount, rank);
             return place == NONE ? NONE : peakCells[place];
+        }
+
+        /** 9 * the power of the cell / the greatest one, rounded down; 0 if that is 0. Two numbers of work are used. */
+        int digit(int cell, Wides work) {
+            work.clear(0);
+            work.clear(1);
+            for (int i = 0; i < 9; i++) {
+                work.add(0, of, cell);
+            }
+            int digit = 0;
+            for (int i = 1; i <= 9 && !of.isZero(best); i++) {
+                work.add(1, of, best);
+                digit = work.compare(0, 1) >= 0 ? i : digit;
+            }
+            return digit;
         }
     }
 
     /** The powers of blocks, and the best track through them. */
     private static final class Blocks {
-        /** By block, then by cell: the greatest score of a track from there to the last block. */
-        final long[][] scores = new long[MOST_BLOCKS][MOST_CELLS];
-        private final long[] powers = new long[MOST_CELLS];
+        /** A row of cells for each block: the greatest score of a track from there to the last block. */
+        final Wides scores = new Wides(MOST_BLOCKS * MOST_CELLS);
 
         int bestOf(Scene scene, State state, int from, int length) {
-            measure(scene, state, from, length);
-            return scene.grid.bestIn(scene.grid.whole, powers);
+            measure(scene, state, from, length, 0);
+            return scene.grid.bestIn(scene.grid.whole, scores, 0);
         }
 
         int changes(Scene scene, State state, int length) {
@@ -1624,31 +1733,33 @@ public final class AcousticCamera {
         void score(Scene scene, State state, int length) {
             int count = Math.min((int) quotient(scene.samples, length), MOST_BLOCKS);
             for (int block = count - 1; block >= 0; block--) {
-                measure(scene, state, block * length, length);
-                for (int cell = 0; cell < scene.grid.cells(); cell++) {
-                    long rest = block + 1 < count ? greatestAround(scores[block + 1], scene.grid, cell) : 0L;
-                    scores[block][cell] = powers[cell] + rest;
+                measure(scene, state, block * length, length, block);
+                for (int cell = 0; cell < scene.grid.cells() && block + 1 < count; cell++) {
+                    int row = rowStart(block + 1);
+                    int next = scene.grid.bestIn(scene.grid.areaAround(cell), scores, row);
+                    scores.add(rowStart(block) + cell, scores, row + next);
                 }
             }
         }
 
         /** A cell of the best track, by the scores computed last; the smallest cells first, as the document wants. */
         int trackCellIn(Grid grid, int block) {
-            int cell = grid.bestIn(grid.whole, scores[0]);
+            int cell = grid.bestIn(grid.whole, scores, 0);
             for (int i = 1; i <= block && i < MOST_BLOCKS; i++) {
-                cell = grid.bestIn(grid.areaAround(cell), scores[i]);
+                cell = grid.bestIn(grid.areaAround(cell), scores, rowStart(i));
             }
             return cell;
         }
 
-        private static long greatestAround(long[] row, Grid grid, int cell) {
-            return row[grid.bestIn(grid.areaAround(cell), row)];
+        /** Puts the powers of all cells in the samples from one on into the row of a block. */
+        private void measure(Scene scene, State state, int from, int length, int block) {
+            for (int cell = 0; cell < scene.grid.cells(); cell++) {
+                state.blockPowerOf(scene.delays[cell], from, length, scores, rowStart(block) + cell);
+            }
         }
 
-        private void measure(Scene scene, State state, int from, int length) {
-            for (int cell = 0; cell < scene.grid.cells(); cell++) {
-                powers[cell] = state.blockPowerOf(scene.delays[cell], from, length);
-            }
+        private static int rowStart(int block) {
+            return block * MOST_CELLS;
         }
     }
 }
