@@ -862,8 +862,18 @@ public final class AcousticCamera {
             return (high[i] << PART_BITS) + low[i];
         }
 
+        /** The nearest float, for numbers that are not negative. */
         float asFloat(int i) {
-            return (float) high[i] * (float) (PART_MASK + 1L) + (float) low[i];
+            long top = high[i];
+            long rest = low[i];
+            float scale = 1.0f;
+            for (int bit = 0; bit < PART_BITS && top > 1L; bit++) {
+                // the lowest bit stays set once it was, so that the cast to float below rounds as the whole number would
+                rest = (rest >>> 1) | (rest & 1L) | ((top & 1L) << (PART_BITS - 1));
+                top >>= 1;
+                scale *= 2.0f;
+            }
+            return (float) ((top << PART_BITS) + rest) * scale;
         }
 
         /** The place of the given rank among the first numbers, greater ones first, of equal ones the smaller place. */

@@ -1,3 +1,4 @@
+import java.math.BigInteger;
 import java.util.ArrayList;
 import java.util.Arrays;
 import java.util.Comparator;
@@ -12,6 +13,7 @@ import java.util.regex.Pattern;
 /**
  * The document written down a second time, sentence by sentence, slow and with the Java library: what ModelTest holds
  * the class against. It shares no code with the class, and computes everything anew at each question.
+ * Sums of products are BigIntegers; an answer that does not fit its type is what is left of it there.
  */
 public final class Model {
     /** A line of the text: its word, its wave (or null), its numbers. */
@@ -29,13 +31,11 @@ public final class Model {
     }
 
     /** x, y, vx, vy of each source by "what" and number, and so on: one map per property. */
-    private record State(boolean[] muted, int[] weight, boolean[] on, int[][] place, int[][] recordings, int cleaned) {
+    private record State(boolean[] muted, int[] weight, boolean[] on, int[][] place, long[][] recordings, int cleaned) {
         State copy() {
-            return new State(muted.clone(), weight.clone(), on.clone(), copy(place), copy(recordings), cleaned);
-        }
-
-        private static int[][] copy(int[][] rows) {
-            return Arrays.stream(rows).map(int[]::clone).toArray(int[][]::new);
+            return new State(muted.clone(), weight.clone(), on.clone(),
+                    Arrays.stream(place).map(int[]::clone).toArray(int[][]::new),
+                    Arrays.stream(recordings).map(long[]::clone).toArray(long[][]::new), cleaned);
         }
     }
 
@@ -442,7 +442,7 @@ public final class Model {
 
     // ---- recordings, beams and powers
 
-    private int[][] recordings(State at) {
+    private long[][] recordings(State at) {
         List<int[][]> heard = new ArrayList<>();
         for (int s = 0; s < sources(); s++) {
             if (at.on[s]) {
@@ -452,8 +452,8 @@ public final class Model {
         return recordings(heard);
     }
 
-    private int[][] recordings(List<int[][]> heard) {
-        int[][] made = new int[mics()][samples()];
+    private long[][] recordings(List<int[][]> heard) {
+        long[][] made = new long[mics()][samples()];
         List<Integer> filter = camera.only("filter").isEmpty() ? List.of(1) : camera.only("filter");
         for (int mic = 0; mic < mics(); mic++) {
             int number = mic;
@@ -468,7 +468,7 @@ public final class Model {
                         sum += when < 0 ? 0 : (long) filter.get(i) * gain * one[mic][when];
                     }
                 }
-                made[mic][t] = (int) Math.max(-camera.limit, Math.min(camera.limit, sum));
+                made[mic][t] = Math.max(-camera.limit, Math.min(camera.limit, sum));
             }
         }
         return made;
@@ -502,7 +502,7 @@ public final class Model {
         camera();
         index(mic, mics());
         range(t, 0, samples() - 1);
-        return state.recordings[mic][t];
+        return (int) state.recordings[mic][t];
     }
 
     public int beam(int cell, int t) {
@@ -516,47 +516,52 @@ public final class Model {
         long sum = 0;
         for (int mic : active(at)) {
             int when = t + delayFrom(point[0], point[1], mic);
-            sum += when < samples() ? (long) at.weight[mic] * at.recordings[mic][when] : 0;
+            long value = when < samples() ? at.recordings[mic][when] : 0;
+            sum = Math.addExact(sum, Math.multiplyExact(value, at.weight[mic]));
         }
         return sum;
     }
 
-    private long power(State at, int[] point) {
+    private BigInteger power(State at, int[] point) {
         int window = window(at, point);
-        long sum = 0;
+        BigInteger sum = BigInteger.ZERO;
         for (int t = 0; t < window; t++) {
-            sum += beam(at, point, t) * beam(at, point, t);
+            sum = sum.add(product(beam(at, point, t), beam(at, point, t)));
         }
-        return window == 0 ? 0 : sum / window;
+        return window == 0 ? BigInteger.ZERO : sum.divide(BigInteger.valueOf(window));
     }
 
-    private long[] powers(State at) {
-        long[] found = new long[cells()];
+    private static BigInteger product(long one, long two) {
+        return BigInteger.valueOf(one).multiply(BigInteger.valueOf(two));
+    }
+
+    private BigInteger[] powers(State at) {
+        BigInteger[] found = new BigInteger[cells()];
         for (int cell = 0; cell < found.length; cell++) {
             found[cell] = power(at, centre(cell));
         }
         return found;
     }
 
-    private static int first(long[] values) {
-        int found = 0;
-        for (int i = values.length - 1; i >= 0; i--) {
-            found = values[i] >= values[found] ? i : found;
-        }
-        return found;
+    private static int first(BigInteger[] values) {
+        return Arrays.asList(values).indexOf(Arrays.stream(values).max(Comparator.naturalOrder()).get());
+    }
+
+    private static BigInteger sum(List<BigInteger> values) {
+        return values.stream().reduce(BigInteger.ZERO, BigInteger::add);
     }
 
     public long power(int cell) {
         camera();
         index(cell, cells());
-        return power(state, centre(cell));
+        return power(state, centre(cell)).longValue();
     }
 
     public long powerAt(int x, int y) {
         camera();
         range(x, -9999, 9999);
         range(y, -9999, 9999);
-        return power(state, new int[] {x, y});
+        return power(state, new int[] {x, y}).longValue();
     }
 
     public int best() {
@@ -566,12 +571,12 @@ public final class Model {
 
     public long bestPower() {
         camera();
-        return Arrays.stream(powers(state)).max().getAsLong();
+        return powers(state)[best()].longValue();
     }
 
     public long meanPower() {
         camera();
-        return Arrays.stream(powers(state)).sum() / cells();
+        return sum(List.of(powers(state))).divide(BigInteger.valueOf(cells())).longValue();
     }
 
     private boolean neighbours(int cell, int other) {
@@ -579,18 +584,18 @@ public final class Model {
                 && Math.abs(cell / columns() - other / columns()) <= 1 && cell != other;
     }
 
-    private List<Integer> peakList(long[] powers) {
+    private List<Integer> peakList(BigInteger[] powers) {
         List<Integer> found = new ArrayList<>();
         for (int cell = 0; cell < powers.length; cell++) {
             boolean peak = true;
             for (int other = 0; other < powers.length; other++) {
-                peak &= !neighbours(cell, other) || powers[cell] > powers[other];
+                peak &= !neighbours(cell, other) || powers[cell].compareTo(powers[other]) > 0;
             }
             if (peak) {
                 found.add(cell);
             }
         }
-        found.sort(Comparator.comparing((Integer cell) -> -powers[cell]).thenComparing(cell -> cell));
+        found.sort(Comparator.comparing((Integer cell) -> powers[cell].negate()).thenComparing(cell -> cell));
         return found;
     }
 
@@ -629,22 +634,23 @@ public final class Model {
     public long zonePower(int zone) {
         camera();
         index(zone, camera.all("zone").size());
-        return zoneCells(zone).stream().mapToLong(this::power).sum();
+        return sum(zoneCells(zone).stream().map(cell -> power(state, centre(cell))).toList()).longValue();
     }
 
     public int zoneBest(int zone) {
         camera();
         index(zone, camera.all("zone").size());
         return zoneCells(zone).stream()
-                .max(Comparator.comparing((Integer cell) -> power(cell)).thenComparing(cell -> -cell)).get();
+                .max(Comparator.comparing((Integer cell) -> power(state, centre(cell))).thenComparing(cell -> -cell))
+                .get();
     }
 
     public float contrast() {
         camera();
-        long[] powers = powers(state);
+        BigInteger[] powers = powers(state);
         Arrays.sort(powers);
         int n = powers.length;
-        return n == 1 || powers[n - 2] == 0 ? 0 : (float) powers[n - 1] / (float) powers[n - 2];
+        return n == 1 || powers[n - 2].signum() == 0 ? 0 : powers[n - 1].floatValue() / powers[n - 2].floatValue();
     }
 
     // ---- aliases
@@ -695,19 +701,19 @@ public final class Model {
         index(cell, cells());
         range(from, 0, samples() - 1);
         range(length, 1, samples());
-        long sum = 0;
-        int window = window(cell);
-        for (int t = from; t < from + length; t++) {
-            long beam = t < window ? beam(cell, t) : 0;
-            sum += beam * beam;
-        }
-        return sum / length;
+        return blockPowers(from, length)[cell].longValue();
     }
 
-    private long[] blockPowers(int from, int length) {
-        long[] found = new long[cells()];
+    private BigInteger[] blockPowers(int from, int length) {
+        BigInteger[] found = new BigInteger[cells()];
         for (int cell = 0; cell < found.length; cell++) {
-            found[cell] = blockPower(cell, from, length);
+            int window = window(cell);
+            BigInteger sum = BigInteger.ZERO;
+            for (int t = from; t < from + length; t++) {
+                long beam = t < window ? beam(state, centre(cell), t) : 0;
+                sum = sum.add(product(beam, beam));
+            }
+            found[cell] = sum.divide(BigInteger.valueOf(length));
         }
         return found;
     }
@@ -733,11 +739,11 @@ public final class Model {
         camera();
         range(length, 4, samples());
         List<Integer> track = track(length);
-        long score = 0;
+        BigInteger score = BigInteger.ZERO;
         for (int block = 0; block < track.size(); block++) {
-            score += blockPower(track.get(block), block * length, length);
+            score = score.add(blockPowers(block * length, length)[track.get(block)]);
         }
-        return score;
+        return score.longValue();
     }
 
     public int trackCell(int length, int block) {
@@ -752,32 +758,32 @@ public final class Model {
     /** From the first block on, the best track to each cell, of equal scores the one with the smaller cells. */
     private List<Integer> track(int length) {
         List<List<Integer>> tracks = new ArrayList<>();
-        long[] scores = new long[cells()];
+        BigInteger[] scores = new BigInteger[cells()];
         for (int block = 0; block < samples() / length; block++) {
-            long[] powers = blockPowers(block * length, length);
+            BigInteger[] powers = blockPowers(block * length, length);
             List<List<Integer>> longer = new ArrayList<>();
-            long[] sums = new long[cells()];
+            BigInteger[] sums = new BigInteger[cells()];
             for (int cell = 0; cell < cells(); cell++) {
                 int before = -1;
                 for (int other = 0; block > 0 && other < cells(); other++) {
                     boolean near = other == cell || neighbours(cell, other);
-                    if (near && (before < 0 || scores[other] > scores[before]
-                            || scores[other] == scores[before] && less(tracks.get(other), tracks.get(before)))) {
+                    if (near && (before < 0 || scores[other].compareTo(scores[before]) > 0
+                            || scores[other].equals(scores[before]) && less(tracks.get(other), tracks.get(before)))) {
                         before = other;
                     }
                 }
                 List<Integer> one = new ArrayList<>(before < 0 ? List.of() : tracks.get(before));
                 one.add(cell);
                 longer.add(one);
-                sums[cell] = powers[cell] + (before < 0 ? 0 : scores[before]);
+                sums[cell] = powers[cell].add(before < 0 ? BigInteger.ZERO : scores[before]);
             }
             tracks = longer;
             scores = sums;
         }
         int found = 0;
         for (int cell = 1; cell < cells(); cell++) {
-            if (scores[cell] > scores[found]
-                    || scores[cell] == scores[found] && less(tracks.get(cell), tracks.get(found))) {
+            if (scores[cell].compareTo(scores[found]) > 0
+                    || scores[cell].equals(scores[found]) && less(tracks.get(cell), tracks.get(found))) {
                 found = cell;
             }
         }
@@ -797,12 +803,16 @@ public final class Model {
         index(cell, cells());
         range(vx, -999, 999);
         range(vy, -999, 999);
-        long sum = 0;
+        return moving(cell, vx, vy).longValue();
+    }
+
+    private BigInteger moving(int cell, int vx, int vy) {
+        BigInteger sum = BigInteger.ZERO;
         for (int t = 0; t < samples(); t++) {
             int[] point = {centre(cell)[0] + vx * t / 100, centre(cell)[1] + vy * t / 100};
-            sum += beam(state, point, t) * beam(state, point, t);
+            sum = sum.add(product(beam(state, point, t), beam(state, point, t)));
         }
-        return sum / samples();
+        return sum.divide(BigInteger.valueOf(samples()));
     }
 
     public int bestVelocity(int cell, int step, int most) {
@@ -811,12 +821,12 @@ public final class Model {
         range(step, 1, 99);
         range(most, 0, 4);
         int found = -1;
-        long greatest = -1;
+        BigInteger greatest = BigInteger.ONE.negate();
         for (int number = 0; number <= 100 * 2 * most + 2 * most; number++) {
             int i = number / 100 - most;
             int k = number % 100 - most;
-            if (k <= most && movingPower(cell, step * i, step * k) > greatest) {
-                greatest = movingPower(cell, step * i, step * k);
+            if (k <= most && moving(cell, step * i, step * k).compareTo(greatest) > 0) {
+                greatest = moving(cell, step * i, step * k);
                 found = number;
             }
         }
@@ -830,9 +840,13 @@ public final class Model {
         index(mic, mics());
         index(other, mics());
         range(lag, 0, samples() - 1);
-        long sum = 0;
+        return productSum(mic, other, lag).longValue();
+    }
+
+    private BigInteger productSum(int mic, int other, int lag) {
+        BigInteger sum = BigInteger.ZERO;
         for (int t = 0; t <= samples() - 1 - lag; t++) {
-            sum += (long) state.recordings[mic][t] * state.recordings[other][t + lag];
+            sum = sum.add(product(state.recordings[mic][t], state.recordings[other][t + lag]));
         }
         return sum;
     }
@@ -842,9 +856,9 @@ public final class Model {
         index(mic, mics());
         index(other, mics());
         range(most, 0, samples() - 1);
-        long[] found = new long[most + 1];
+        BigInteger[] found = new BigInteger[most + 1];
         for (int lag = 0; lag <= most; lag++) {
-            found[lag] = correlation(mic, other, lag);
+            found[lag] = productSum(mic, other, lag);
         }
         return first(found);
     }
@@ -852,7 +866,12 @@ public final class Model {
     public long level(int mic) {
         camera();
         index(mic, mics());
-        return Arrays.stream(state.recordings[mic]).mapToLong(value -> (long) value * value).sum() / samples();
+        return exactLevel(mic).longValue();
+    }
+
+    private BigInteger exactLevel(int mic) {
+        return sum(Arrays.stream(state.recordings[mic]).mapToObj(value -> product(value, value)).toList())
+                .divide(BigInteger.valueOf(samples()));
     }
 
     public int loudest(int rank) {
@@ -862,7 +881,7 @@ public final class Model {
         for (int mic = 0; mic < mics(); mic++) {
             order.add(mic);
         }
-        order.sort(Comparator.comparing((Integer mic) -> -level(mic)).thenComparing(mic -> mic));
+        order.sort(Comparator.comparing((Integer mic) -> exactLevel(mic).negate()).thenComparing(mic -> mic));
         return order.get(rank);
     }
 
@@ -871,12 +890,13 @@ public final class Model {
     public int writeMap() {
         camera();
         StringBuilder text = new StringBuilder();
-        long[] powers = powers(state);
-        long greatest = Arrays.stream(powers).max().getAsLong();
+        BigInteger[] powers = powers(state);
+        BigInteger greatest = powers[first(powers)];
         for (int row = 0; row < rows(); row++) {
             text.append(row > 0 ? ";" : "");
             for (int column = 0; column < columns(); column++) {
-                text.append(greatest == 0 ? 0 : 9 * powers[row * columns() + column] / greatest);
+                BigInteger nine = powers[row * columns() + column].multiply(BigInteger.valueOf(9));
+                text.append(greatest.signum() == 0 ? 0 : nine.divide(greatest).intValueExact());
             }
         }
         map = text.toString();
@@ -893,7 +913,7 @@ public final class Model {
     private State point(int cell, int period) {
         int[] centre = centre(cell);
         Line source = new Line("source", "square", List.of(centre[0], centre[1], 0, 0, 100, period, 0), 0);
-        int[][] made = recordings(List.<int[][]>of(heard(source, new int[] {centre[0], centre[1], 0, 0})));
+        long[][] made = recordings(List.<int[][]>of(heard(source, new int[] {centre[0], centre[1], 0, 0})));
         return new State(state.muted, state.weight, state.on, state.place, made, 0);
     }
 
@@ -909,7 +929,7 @@ public final class Model {
         index(cell, cells());
         index(other, cells());
         range(period, 2, 99);
-        return powers(point(cell, period))[other];
+        return powers(point(cell, period))[other].longValue();
     }
 
     public int bestWithout(int mic) {
@@ -1007,7 +1027,8 @@ public final class Model {
                 copied.cleaned + 1);
         for (int t = 0; t < window(best); t++) {
             for (int mic : active(state)) {
-                changed.recordings[mic][t + delay(mic, best)] -= (int) ((long) beam(best, t) * percent / (100 * sum));
+                long part = Math.multiplyExact(beam(state, centre(best), t), percent) / (100 * sum);
+                changed.recordings[mic][t + delay(mic, best)] -= part;
             }
         }
         change(changed);

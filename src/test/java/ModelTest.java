@@ -14,11 +14,13 @@ import java.util.stream.LongStream;
  * the number of runs and the first one: a run is made from its number alone.
  */
 public final class ModelTest {
-    private static final int RUNS = 500;
+    private static final int RUNS = 400;
+    private static final int GREAT_RUNS = 80;
     private static final int TEXTS = 6000;
     private static final Map<String, String> ARGUMENTS = arguments();
     private static final List<String> CHANGES =
             List.of("mute", "setWeight", "setOn", "moveSource", "setVelocity", "clean", "clean", "undo", "restore");
+    private static final List<String> SMALL_CHANGES = List.of("mute", "setWeight", "clean", "undo", "save");
     private static final Map<String, Method> METHODS = new TreeMap<>();
 
     private final Random random;
@@ -46,9 +48,11 @@ public final class ModelTest {
         long first = args.length > 1 ? Long.parseLong(args[1]) : 0;
         boolean right = LongStream.range(first, first + runs).parallel()
                 .mapToObj(seed -> new ModelTest(seed).run(names)).reduce(true, Boolean::logicalAnd);
+        boolean great = LongStream.range(first, first + runs * GREAT_RUNS / RUNS).parallel()
+                .mapToObj(seed -> new ModelTest(seed).runGreat(names)).reduce(true, Boolean::logicalAnd);
         boolean parsed = LongStream.range(first, first + TEXTS).parallel()
                 .mapToObj(seed -> new ModelTest(seed).parse()).reduce(true, Boolean::logicalAnd);
-        System.exit(right && parsed ? 0 : 1);
+        System.exit(right && great && parsed ? 0 : 1);
     }
 
     /** By method, a letter for each argument. */
@@ -75,16 +79,47 @@ public final class ModelTest {
             if (!loads(text)) {
                 return false;
             }
-            int count = random.nextInt(70);
-            for (int k = 0; k < count; k++) {
-                List<String> from = random.nextInt(4) == 0 ? CHANGES : names;
-                String name = from.get(random.nextInt(from.size()));
-                if (!same(name, argumentsFor(name))) {
-                    return false;
-                }
+            if (!asks(names, CHANGES, random.nextInt(70), 4)) {
+                return false;
             }
         }
         return true;
+    }
+
+    private boolean asks(List<String> names, List<String> changes, int count, int oneChangeIn) {
+        for (int k = 0; k < count; k++) {
+            List<String> from = random.nextInt(oneChangeIn) == 0 ? changes : names;
+            String name = from.get(random.nextInt(from.size()));
+            if (!same(name, argumentsFor(name))) {
+                return false;
+            }
+        }
+        return true;
+    }
+
+    /** Cleanings in turns that let the samples grow, some 0.9 bits a turn: past an int, and the sums past a long. */
+    private boolean runGreat(List<String> names) {
+        if (!loads(loudText()) || !same("setWeight", new Object[] {0, 0})) {
+            return false;
+        }
+        List<String> questions = new ArrayList<>(names);
+        questions.removeAll(CHANGES);
+        int turns = 15 + random.nextInt(25);
+        for (int i = 0; i < turns; i++) {
+            if (!turn(0, 2, 1) || !same("contrast", new Object[0])
+                    || (i > 15 && !asks(questions, questions, random.nextInt(3), 1))) {
+                return false;
+            }
+        }
+        return asks(questions, SMALL_CHANGES, 60, 12);
+    }
+
+    private boolean turn(int one, int two, int three) {
+        return same("mute", new Object[] {two, true}) && same("clean", new Object[] {100})
+                && same("mute", new Object[] {two, false}) && same("mute", new Object[] {three, true})
+                && same("clean", new Object[] {100}) && same("mute", new Object[] {three, false})
+                && same("setWeight", new Object[] {one, 9}) && same("clean", new Object[] {100})
+                && same("setWeight", new Object[] {one, 0});
     }
 
     private boolean parse() {
@@ -237,6 +272,31 @@ public final class ModelTest {
         }
         for (String line : lines) {
             text.append(random.nextBoolean() ? ";" : " ; ").append(line);
+        }
+        return text.toString();
+    }
+
+    /** Three microphones or more, near together, and loud sources before them. */
+    private String loudText() {
+        int columns = between(1, 5);
+        int rows = between(1, 5);
+        // delays that are nearly all the same let the samples grow fastest
+        boolean far = random.nextInt(4) > 0;
+        StringBuilder text = new StringBuilder("camera distance " + between(far ? 3000 : 200, 5000) + " step "
+                + between(far ? 40 : 5, 99)
+                + " samples " + between(32, 80) + " limit " + between(5000, 9999) + ";map " + signed(100) + signed(100)
+                + between(1, 99) + " " + columns + " " + rows + ";zone 0 0 " + (columns - 1) + " " + (rows - 1));
+        for (int i = between(3, random.nextBoolean() ? 3 : 5); i > 0; i--) {
+            text.append(";mic " + signed(100) + signed(100) + between(1, 9));
+        }
+        for (int i = between(1, 3); i > 0; i--) {
+            String wave = List.of("square", "triangle", "noise").get(random.nextInt(3));
+            String velocity = random.nextBoolean() ? "0 0 " : signed(99) + signed(99);
+            text.append(";source " + wave + " " + signed(300) + signed(300) + velocity + between(100, 999) + " "
+                    + between(2, 30) + " " + between(0, 99));
+        }
+        if (random.nextInt(4) == 0) {
+            text.append(";filter " + between(1, 9) + " " + signedList(2));
         }
         return text.toString();
     }

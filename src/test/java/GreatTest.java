@@ -1,0 +1,108 @@
+/**
+ * Cleanings can let the samples grow: here by turns that are worked out beside the class. All delays are 0, and the
+ * source is square, so the samples of a microphone are its loudness or the negative of it, and every power is a square.
+ */
+public final class GreatTest {
+    private static final int SAMPLES = 200;
+    private static final int PERIOD = 10;
+    private static final int MOST_TURNS = 23;
+    private static final String TEXT = "camera distance 5000 step 99 samples 200 limit 9999;mic 0 0 1;mic 1 0 2;mic 0 1 4"
+            + ";shade 0;map 0 0 1 3 2;zone 1 1 1 1;source square 0 0 0 0 999 10 0";
+
+    private final AcousticCamera camera = Check.loaded(TEXT);
+    private long first = 999;
+    private long second = 1998;
+    private long third = 3996;
+
+    public static void main(String[] args) {
+        for (int turns = 1; turns <= MOST_TURNS; turns++) {
+            // one object each, as an object is good for 512 calls only
+            GreatTest test = new GreatTest();
+            for (int i = 0; i < turns; i++) {
+                test.turn();
+            }
+            test.asked(turns);
+            Check.due("the samples grow", turns < MOST_TURNS || Math.abs(test.second) > 2_000_000_000L, true);
+        }
+        Check.end();
+    }
+
+    /** The weights are 0, 1 and 1: the beam of two microphones is that of the one whose weight is 1. */
+    private void turn() {
+        camera.mute(2, true);
+        camera.clean(100);
+        camera.mute(2, false);
+        first -= second;
+        second = 0;
+        camera.mute(1, true);
+        camera.clean(100);
+        camera.mute(1, false);
+        first -= third;
+        third = 0;
+        camera.setWeight(0, 9);
+        camera.clean(100);
+        camera.setWeight(0, 0);
+        long part = 9 * first * 100 / 1100;
+        first -= part;
+        second -= part;
+        third -= part;
+    }
+
+    private void asked(int turns) {
+        String when = " after turn " + turns;
+        Check.due("sample(0, 0)" + when, (long) camera.sample(0, 0), first);
+        Check.due("sample(1, 5)" + when, (long) camera.sample(1, 5), -second);
+        for (int weight = 0; weight <= 9; weight += 3) {
+            camera.setWeight(0, weight);
+            powers(weight * first + second + third, " with weight " + weight + when);
+        }
+        camera.setWeight(0, 0);
+        compared(when);
+    }
+
+    private void powers(long beam, String when) {
+        long power = beam * beam;
+        if ((int) beam != beam) {
+            return;
+        }
+        Check.due("beam(0, 0)" + when, (long) camera.beam(0, 0), beam);
+        Check.due("beam(5, 9)" + when, (long) camera.beam(5, 9), -beam);
+        Check.due("power(5)" + when, camera.power(5), power);
+        Check.due("powerAt(1, 1)" + when, camera.powerAt(1, 1), power);
+        Check.due("bestPower()" + when, camera.bestPower(), power);
+        Check.due("meanPower()" + when, camera.meanPower(), power);
+        Check.due("zonePower(0)" + when, camera.zonePower(0), power);
+        Check.due("zoneBest(0)" + when, camera.zoneBest(0), 4);
+        Check.due("best()" + when, camera.best(), 0);
+        Check.due("peaks()" + when, camera.peaks(), 0);
+        Check.due("contrast()" + when, camera.contrast(), power == 0 ? 0.0f : 1.0f);
+        Check.due("blockPower(1, 3, 97)" + when, camera.blockPower(1, 3, 97), power);
+        Check.due("blockBest(3, 97)" + when, camera.blockBest(3, 97), 0);
+        Check.due("path(4)" + when, camera.path(4), 0);
+        Check.due("trackScore(200)" + when, camera.trackScore(200), power);
+        Check.due("trackCell(4, 49)" + when, camera.trackCell(4, 49), 0);
+        Check.due("movingPower(2, 0, 0)" + when, camera.movingPower(2, 0, 0), power);
+        Check.due("bestVelocity(2, 1, 1)" + when, camera.bestVelocity(2, 1, 1), 0);
+        Check.due("writeMap()" + when, camera.writeMap(), 7);
+        Check.due("mapByte(0)" + when, camera.mapByte(0), power == 0 ? (int) '0' : (int) '9');
+        Check.due("mapByte(6)" + when, camera.mapByte(6), power == 0 ? (int) '0' : (int) '9');
+        if (power < Long.MAX_VALUE / 50) {
+            Check.due("trackScore(4)" + when, camera.trackScore(4), 50 * power);
+        }
+    }
+
+    private void compared(String when) {
+        Check.due("level(0)" + when, camera.level(0), first * first);
+        Check.due("level(2)" + when, camera.level(2), third * third);
+        int loudest = Math.abs(first) >= Math.abs(second) ? 0 : 1;
+        Check.due("loudest(0)" + when, camera.loudest(0), loudest);
+        Check.due("bestLag(0, 0, 199)" + when, camera.bestLag(0, 0, SAMPLES - 1), 0);
+        // a correlation of the opposite sign is greatest half a period later
+        boolean opposed = (first < 0) != (second < 0);
+        Check.due("bestLag(0, 1, 199)" + when, camera.bestLag(0, 1, SAMPLES - 1), opposed ? PERIOD / 2 : 0);
+        Check.due("correlation(0, 1, 199)" + when, camera.correlation(0, 1, SAMPLES - 1), -first * second);
+        if (Math.abs(first) < 100_000_000L) {
+            Check.due("correlation(1, 0, 10)" + when, camera.correlation(1, 0, PERIOD), 190 * second * first);
+        }
+    }
+}
