@@ -9,6 +9,7 @@ import java.util.Set;
 import java.util.TreeSet;
 import java.util.regex.Matcher;
 import java.util.regex.Pattern;
+import java.util.stream.Collectors;
 
 /**
  * The document written down a second time, sentence by sentence, slow and with the Java library: what ModelTest holds
@@ -19,9 +20,9 @@ public final class Model {
     /** A line of the text: its word, its wave (or null), its numbers. */
     private record Line(String word, String wave, List<Integer> numbers, int from) { }
 
-    private record Camera(int distance, int step, int samples, int limit, List<Line> lines) {
+    private record Camera(int distance, int step, int samples, int limit, Map<String, List<Line>> lines) {
         List<Line> all(String word) {
-            return lines.stream().filter(line -> line.word.equals(word)).toList();
+            return lines.getOrDefault(word, List.of());
         }
 
         List<Integer> only(String word) {
@@ -159,7 +160,8 @@ public final class Model {
             if (count("mic") == 0 || count("map") == 0) {
                 stop(5);
             }
-            return new Camera(distance, step, samples, limit, lines);
+            return new Camera(distance, step, samples, limit,
+                    lines.stream().collect(Collectors.groupingBy(Line::word)));
         }
 
         private void line() {

@@ -14,8 +14,8 @@ import java.util.stream.LongStream;
  * the number of runs and the first one: a run is made from its number alone.
  */
 public final class ModelTest {
-    private static final int RUNS = 400;
-    private static final int GREAT_RUNS = 80;
+    private static final int RUNS = 800;
+    private static final int GREAT_RUNS = 160;
     private static final int TEXTS = 6000;
     private static final Map<String, String> ARGUMENTS = arguments();
     private static final List<String> CHANGES =
