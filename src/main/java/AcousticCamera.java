@@ -2,7 +2,8 @@ import java.util.Arrays;
 
 /**
  * An acoustic camera: microphones in a plane record sources in another plane, and a map of that plane is computed by
- * delay and sum. Everything that a call needs is made once, in the constructor, so that calls make no objects.
+ * delay and sum. What a call needs is made once, in the constructor, and used again, so that calls make no objects; only
+ * the numbers that cleanings have let grow get room when they first need it.
  */
 public final class AcousticCamera {
     public static final int NONE = -1;
@@ -31,10 +32,11 @@ public final class AcousticCamera {
     private static final int MOST_WEIGHT = 9;
     private static final int PROBE_AMP = 100;
 
-    private static final int PART_BITS = 62;
-    private static final long PART_MASK = 0x3fffffffffffffffL;
-    private static final int HALF_BITS = 31;
-    private static final long HALF_MASK = 0x7fffffffL;
+    private static final int PART_BITS = 28;
+    private static final long PART_MASK = 0xfffffffL;
+    private static final float PART_SCALE = 268435456.0f;
+    /** See Wides for why so many are enough. */
+    private static final int MOST_PARTS = 40;
 
     private static final int WORD = 1;
     private static final int NUMBER = 2;
@@ -239,7 +241,7 @@ public final class AcousticCamera {
         needCamera();
         needMic(mic);
         needRange(t, 0, scene.samples - 1);
-        return (int) now.recordings[mic][t];
+        return (int) now.samples.value(State.placeOf(mic, t));
     }
 
     public int beam(int cell, int t)
@@ -247,7 +249,8 @@ public final class AcousticCamera {
         needCamera();
         needCell(cell);
         needRange(t, 0, now.windowOf(scene.delays[cell]) - 1);
-        return (int) now.beamOf(scene.delays[cell], t);
+        now.focus(scene.delays[cell], t);
+        return (int) now.beam.value(0);
     }
 
     public long power(int cell) throws IllegalStateException, IndexOutOfBoundsException {
@@ -318,8 +321,7 @@ public final class AcousticCamera {
         needCamera();
         PowerMap map = powersNow();
         int second = map.second(scene.grid.cells());
-        float divisor = second == NONE ? 0.0f : map.of.asFloat(second);
-        return divisor == 0.0f ? 0.0f : map.of.asFloat(map.best) / divisor;
+        return second == NONE ? 0.0f : map.of.ratio(map.best, second);
     }
 
     // ---- aliases
@@ -746,8 +748,8 @@ public final class AcousticCamera {
         numbers.clear(place);
         for (int t = 0; t < scene.samples; t++) {
             scene.delaysFrom(moved(x, vx, t), moved(y, vy, t), pointDelays);
-            long value = now.beamOf(pointDelays, t);
-            numbers.addProduct(place, value, value);
+            now.focus(pointDelays, t);
+            numbers.addProduct(place, now.beam, 0, now.beam, 0);
         }
         numbers.divide(place, scene.samples);
     }
@@ -790,97 +792,222 @@ public final class AcousticCamera {
     }
 
     /**
-     * Whole numbers that may be too great for a long, as sums of squares are after many cleanings: a number is
-     * high * 2^62 + low, with low from 0 to 2^62 - 1. Sums are exact as long as no sample is beyond 2^48.
+     * Whole numbers of any sign that may be far too great for a long: a number is the sum of its parts k times 2^(28 k).
+     * Every part but the last one is from 0 to 2^28 - 1, the last one from -2^28 to 2^28 - 1; all numbers of a table have
+     * equally many parts, so that they can be compared part by part.
+     *
+     * The parts never run out within the 512 calls of an object: a cleaning at most doubles the greatest sample, which
+     * was at most 9999 when the recordings were made, so that a sample stays below 2^525, a beam below 2^532, and a sum
+     * of the squares of 200 beams, as any other sum that is worked out, below 2^1072.
      */
     private static final class Wides {
-        private final long[] high;
-        private final long[] low;
+        private final int count;
+        /** By part, then by number; the rows that were never needed are empty. */
+        private final long[][] rows = new long[MOST_PARTS][0];
+        /** How many parts the numbers have. */
+        private int used = 1;
 
         Wides(int count) {
-            high = new long[Math.max(count, 0)];
-            low = new long[Math.max(count, 0)];
+            this.count = Math.max(count, 0);
+            rows[0] = new long[Math.max(count, 0)];
+        }
+
+        /** Lets the numbers have one part again; to be called when none of them is wanted any more. */
+        void narrow() {
+            used = 1;
         }
 
         void clear(int i) {
-            high[i] = 0L;
-            low[i] = 0L;
-        }
-
-        void set(int i, Wides other, int k) {
-            high[i] = other.high[k];
-            low[i] = other.low[k];
-        }
-
-        void add(int i, Wides other, int k) {
-            addParts(i, other.high[k], other.low[k]);
-        }
-
-        void addProduct(int i, long a, long b) {
-            long x = Math.abs(a);
-            long y = Math.abs(b);
-            long middle = (x >>> HALF_BITS) * (y & HALF_MASK) + (x & HALF_MASK) * (y >>> HALF_BITS);
-            long bottom = (x & HALF_MASK) * (y & HALF_MASK) + ((middle & HALF_MASK) << HALF_BITS);
-            long highPart = (x >>> HALF_BITS) * (y >>> HALF_BITS) + (middle >>> HALF_BITS) + (bottom >>> PART_BITS);
-            long lowPart = bottom & PART_MASK;
-            if ((a < 0L) == (b < 0L)) {
-                addParts(i, highPart, lowPart);
-            } else {
-                // the complement: -(h * 2^62 + l) is (-h - 1) * 2^62 + (2^62 - l), and addParts carries from there
-                addParts(i, -highPart - 1L, PART_MASK + 1L - lowPart);
+            for (int part = 0; part < used; part++) {
+                rows[part][i] = 0L;
             }
         }
 
-        private void addParts(int i, long highPart, long lowPart) {
-            long sum = low[i] + lowPart;
-            high[i] += highPart + (sum >>> PART_BITS);
-            low[i] = sum & PART_MASK;
+        /** Puts a number of one part. */
+        void put(int i, int value) {
+            clear(i);
+            rows[0][i] = value;
+            settle(i);
         }
 
-        /** Rounded down, for numbers that are not negative; a divisor of 0 changes nothing. */
+        void set(int i, Wides other, int k) {
+            clear(i);
+            add(i, other, k, 1);
+        }
+
+        /** Copies the numbers of a table of the same size. */
+        void copyFrom(Wides other) {
+            used = other.used;
+            for (int part = 0; part < used; part++) {
+                makeRow(part);
+                System.arraycopy(other.rows[part], 0, rows[part], 0, Math.min(count, other.count));
+            }
+        }
+
+        /** Adds a number, times a factor of one part, to number i. */
+        void add(int i, Wides other, int k, int factor) {
+            addLoosely(i, other, k, factor);
+            settle(i);
+        }
+
+        /** As add, but the parts may leave their bounds: number i is to be settled when some few numbers are added. */
+        void addLoosely(int i, Wides other, int k, int factor) {
+            for (int parts = used; parts < other.used && parts < MOST_PARTS; parts++) {
+                widen();
+            }
+            for (int part = 0; part < other.used; part++) {
+                rows[part][i] += factor * other.rows[part][k];
+            }
+        }
+
+        /** Adds the product of two numbers to number i. */
+        void addProduct(int i, Wides a, int j, Wides b, int k) {
+            for (int parts = used; parts < a.used + b.used && parts < MOST_PARTS; parts++) {
+                widen();
+            }
+            for (int part = 0; part < used && part < a.used + b.used - 1; part++) {
+                long sum = 0L;
+                for (int left = Math.max(part - b.used + 1, 0); left <= part && left < a.used; left++) {
+                    sum += a.rows[left][j] * b.rows[part - left][k];
+                }
+                rows[part][i] += sum;
+            }
+            settle(i);
+        }
+
+        /** Multiplies by a factor of one part. */
+        void multiply(int i, int factor) {
+            for (int part = 0; part < used; part++) {
+                rows[part][i] *= factor;
+            }
+            settle(i);
+        }
+
+        /** Rounded towards 0; a divisor of 0 changes nothing. */
         void divide(int i, int divisor) {
             if (divisor <= 0) {
                 return;
             }
-            long middle = ((high[i] % divisor) << HALF_BITS) + (low[i] >>> HALF_BITS);
-            long bottom = ((middle % divisor) << HALF_BITS) + (low[i] & HALF_MASK);
-            high[i] /= divisor;
-            low[i] = ((middle / divisor) << HALF_BITS) + bottom / divisor;
+            boolean negative = rows[used - 1][i] < 0L;
+            if (negative) {
+                multiply(i, -1);
+            }
+            long rest = 0L;
+            for (int part = used - 1; part >= 0; part--) {
+                long dividend = (rest << PART_BITS) + rows[part][i];
+                rows[part][i] = dividend / divisor;
+                rest = dividend % divisor;
+            }
+            if (negative) {
+                multiply(i, -1);
+            }
+        }
+
+        /** Carries what is beyond the bounds of the parts of number i; all numbers get a part more if it needs one. */
+        void settle(int i) {
+            for (int part = 0; part + 1 < used; part++) {
+                long value = rows[part][i];
+                rows[part][i] = value & PART_MASK;
+                rows[part + 1][i] += value >> PART_BITS;
+            }
+            for (int parts = used; parts < MOST_PARTS && isBeyondPart(rows[parts - 1][i]); parts++) {
+                widen();
+            }
+        }
+
+        private static boolean isBeyondPart(long value) {
+            long rest = value >> PART_BITS;
+            return rest != 0L && rest != -1L;
+        }
+
+        private void widen() {
+            makeRow(used);
+            for (int i = 0; i < count; i++) {
+                long last = rows[used - 1][i];
+                rows[used - 1][i] = last & PART_MASK;
+                rows[used][i] = last >> PART_BITS;
+            }
+            used++;
+        }
+
+        private void makeRow(int part) {
+            if (rows[part].length == 0) {
+                rows[part] = new long[count];
+            }
         }
 
         /** Negative, 0 or positive, as number i is less than, equal to or greater than number k. */
         int compare(int i, int k) {
-            return high[i] == high[k] ? Long.compare(low[i], low[k]) : Long.compare(high[i], high[k]);
+            int order = 0;
+            for (int part = used - 1; part >= 0 && order == 0; part--) {
+                order = Long.compare(rows[part][i], rows[part][k]);
+            }
+            return order;
         }
 
         boolean isZero(int i) {
-            return high[i] == 0L && low[i] == 0L;
-        }
-
-        /** The number, if it fits a long. */
-        long value(int i) {
-            return (high[i] << PART_BITS) + low[i];
-        }
-
-        /** The nearest float, for numbers that are not negative. */
-        float asFloat(int i) {
-            long top = high[i];
-            long rest = low[i];
-            float scale = 1.0f;
-            for (int bit = 0; bit < PART_BITS && top > 1L; bit++) {
-                // the lowest bit stays set once it was, so that the cast to float below rounds as the whole number would
-                rest = (rest >>> 1) | (rest & 1L) | ((top & 1L) << (PART_BITS - 1));
-                top >>= 1;
-                scale *= 2.0f;
+            long bits = 0L;
+            for (int part = 0; part < used; part++) {
+                bits |= rows[part][i];
             }
-            return (float) ((top << PART_BITS) + rest) * scale;
+            return bits == 0L;
+        }
+
+        /** The number, if it fits a long; otherwise its low bits. */
+        long value(int i) {
+            long value = 0L;
+            for (int part = used - 1; part >= 0; part--) {
+                value = (value << PART_BITS) + rows[part][i];
+            }
+            return value;
+        }
+
+        /**
+         * The quotient of two numbers as floats, the first one not less than the second one; 0 if that is 0. Numbers
+         * that no float can hold are brought down together, as their quotient would not be a number otherwise.
+         */
+        float ratio(int i, int k) {
+            float divisor = leading(k);
+            if (divisor == 0.0f) {
+                return 0.0f;
+            }
+            float ratio = leading(i) / divisor;
+            for (int part = partsBelow(k); part < partsBelow(i); part++) {
+                ratio *= PART_SCALE;
+            }
+            return ratio;
+        }
+
+        /** The number without its parts below, as a float, for numbers that are not negative. */
+        private float leading(int i) {
+            int below = partsBelow(i);
+            long lost = 0L;
+            for (int part = 0; part < below; part++) {
+                lost |= rows[part][i];
+            }
+            long value = rows[below][i];
+            if (below + 1 < used) {
+                value += rows[below + 1][i] << PART_BITS;
+            }
+            // the lowest bit stands for all that are lost, so that the cast rounds as the whole number would
+            return (float) (lost == 0L ? value : value | 1L);
+        }
+
+        /** How many parts are below the two leading ones. */
+        private int partsBelow(int i) {
+            for (int part = used - 1; part > 1; part--) {
+                if (rows[part][i] != 0L) {
+                    return part - 1;
+                }
+            }
+            return 0;
         }
 
         /** The place of the given rank among the first numbers, greater ones first, of equal ones the smaller place. */
-        int ranked(int count, int rank) {
-            for (int i = 0; i < count; i++) {
+        int ranked(int first, int rank) {
+            for (int i = 0; i < first; i++) {
                 int before = 0;
-                for (int k = 0; k < count; k++) {
+                for (int k = 0; k < first; k++) {
                     int order = compare(k, i);
                     if (order > 0 || (order == 0 && k < i)) {
                         before++;
@@ -1420,8 +1547,14 @@ public final class AcousticCamera {
         final int[] y = new int[MOST_SOURCES];
         final int[] vx = new int[MOST_SOURCES];
         final int[] vy = new int[MOST_SOURCES];
-        /** No bound holds them in once they are cleaned. */
-        final long[][] recordings = new long[MOST_MICS][MOST_SAMPLES];
+        /** The samples of all microphones, at their places; no bound holds them in once they are cleaned. */
+        final Wides samples = new Wides(MOST_MICS * MOST_SAMPLES);
+        /** The beam that focus() has made. */
+        final Wides beam = new Wides(1);
+
+        static int placeOf(int mic, int t) {
+            return mic * MOST_SAMPLES + t;
+        }
 
         void begin(Scene scene) {
             micCount = scene.micCount;
@@ -1447,7 +1580,6 @@ public final class AcousticCamera {
             for (int mic = 0; mic < MOST_MICS; mic++) {
                 muted[mic] = other.muted[mic];
                 weights[mic] = other.weights[mic];
-                System.arraycopy(other.recordings[mic], 0, recordings[mic], 0, MOST_SAMPLES);
             }
             for (int i = 0; i < MOST_SOURCES; i++) {
                 on[i] = other.on[i];
@@ -1456,6 +1588,7 @@ public final class AcousticCamera {
                 vx[i] = other.vx[i];
                 vy[i] = other.vy[i];
             }
+            samples.copyFrom(other.samples);
         }
 
         int activeMics() {
@@ -1500,43 +1633,38 @@ public final class AcousticCamera {
             return Math.max(sampleCount - greatestDelay(delays), 0);
         }
 
-        /** Samples beyond the recordings count as 0. */
-        long beamOf(int[] delays, int t) {
-            long sum = 0L;
+        /** Makes the beam at t; samples beyond the recordings count as 0. */
+        void focus(int[] delays, int t) {
+            beam.narrow();
+            beam.clear(0);
             for (int mic = 0; mic < micCount; mic++) {
                 int at = t + delays[mic];
                 if (!muted[mic] && at >= 0 && at < sampleCount) {
-                    sum += weights[mic] * recordings[mic][at];
+                    beam.addLoosely(0, samples, placeOf(mic, at), weights[mic]);
                 }
             }
-            return sum;
+            beam.settle(0);
         }
 
-        private void squareSum(int[] delays, int from, int end, Wides out, int place) {
-            out.clear(place);
-            for (int t = from; t < end; t++) {
-                long value = beamOf(delays, t);
-                out.addProduct(place, value, value);
-            }
-        }
-
-        /** A window of 0 leaves the sum, which is 0 then. */
+        /** As the block of its window has it; a window of 0 leaves the sum, which is 0 then. */
         void powerOf(int[] delays, Wides out, int place) {
-            int end = windowOf(delays);
-            squareSum(delays, 0, end, out, place);
-            out.divide(place, end);
+            blockPowerOf(delays, 0, windowOf(delays), out, place);
         }
 
         void blockPowerOf(int[] delays, int from, int length, Wides out, int place) {
             int end = Math.min(from + length, windowOf(delays));
-            squareSum(delays, from, end, out, place);
+            out.clear(place);
+            for (int t = from; t < end; t++) {
+                focus(delays, t);
+                out.addProduct(place, beam, 0, beam, 0);
+            }
             out.divide(place, length);
         }
 
         void productSum(int mic, int other, int lag, Wides out, int place) {
             out.clear(place);
             for (int t = 0; t + lag < sampleCount; t++) {
-                out.addProduct(place, recordings[mic][t], recordings[other][t + lag]);
+                out.addProduct(place, samples, placeOf(mic, t), samples, placeOf(other, t + lag));
             }
         }
 
@@ -1545,11 +1673,13 @@ public final class AcousticCamera {
             int whole = 100 * activeWeight();
             int end = windowOf(delays);
             for (int t = 0; t < end; t++) {
-                long part = quotient(beamOf(delays, t) * percent, whole);
+                focus(delays, t);
+                beam.multiply(0, percent);
+                beam.divide(0, whole);
                 for (int mic = 0; mic < micCount; mic++) {
                     int at = t + delays[mic];
                     if (!muted[mic] && at >= 0 && at < sampleCount) {
-                        recordings[mic][at] -= part;
+                        samples.add(placeOf(mic, at), beam, 0, -1);
                     }
                 }
             }
@@ -1617,10 +1747,11 @@ public final class AcousticCamera {
         }
 
         private void finish(Scene scene, State state) {
+            state.samples.narrow();
             for (int mic = 0; mic < scene.micCount; mic++) {
                 for (int t = 0; t < scene.samples; t++) {
                     int value = scene.tapCount > 0 ? filtered(scene, mic, t) : raw(scene, mic, t);
-                    state.recordings[mic][t] = Math.max(-scene.limit, Math.min(scene.limit, value));
+                    state.samples.put(State.placeOf(mic, t), Math.max(-scene.limit, Math.min(scene.limit, value)));
                 }
             }
             state.timesCleaned = 0;
@@ -1651,6 +1782,8 @@ public final class AcousticCamera {
         private final Wides peakPowers = new Wides(MOST_CELLS);
 
         void measure(Scene scene, State state) {
+            of.narrow();
+            peakPowers.narrow();
             for (int cell = 0; cell < scene.grid.cells(); cell++) {
                 state.powerOf(scene.delays[cell], of, cell);
             }
@@ -1680,7 +1813,7 @@ public final class AcousticCamera {
             out.clear(place);
             for (int row = area[1]; row <= area[3]; row++) {
                 for (int column = area[0]; column <= area[2]; column++) {
-                    out.add(place, of, row * grid.columns + column);
+                    out.add(place, of, row * grid.columns + column, 1);
                 }
             }
         }
@@ -1707,12 +1840,10 @@ public final class AcousticCamera {
         int digit(int cell, Wides work) {
             work.clear(0);
             work.clear(1);
-            for (int i = 0; i < 9; i++) {
-                work.add(0, of, cell);
-            }
+            work.add(0, of, cell, 9);
             int digit = 0;
             for (int i = 1; i <= 9 && !of.isZero(best); i++) {
-                work.add(1, of, best);
+                work.add(1, of, best, 1);
                 digit = work.compare(0, 1) >= 0 ? i : digit;
             }
             return digit;
@@ -1725,6 +1856,7 @@ public final class AcousticCamera {
         final Wides scores = new Wides(MOST_BLOCKS * MOST_CELLS);
 
         int bestOf(Scene scene, State state, int from, int length) {
+            scores.narrow();
             measure(scene, state, from, length, 0);
             return scene.grid.bestIn(scene.grid.whole, scores, 0);
         }
@@ -1742,12 +1874,13 @@ public final class AcousticCamera {
 
         void score(Scene scene, State state, int length) {
             int count = Math.min((int) quotient(scene.samples, length), MOST_BLOCKS);
+            scores.narrow();
             for (int block = count - 1; block >= 0; block--) {
                 measure(scene, state, block * length, length, block);
                 for (int cell = 0; cell < scene.grid.cells() && block + 1 < count; cell++) {
                     int row = rowStart(block + 1);
                     int next = scene.grid.bestIn(scene.grid.areaAround(cell), scores, row);
-                    scores.add(rowStart(block) + cell, scores, row + next);
+                    scores.add(rowStart(block) + cell, scores, row + next, 1);
                 }
             }
         }
