@@ -2,8 +2,8 @@ import java.util.Arrays;
 
 /**
  * An acoustic camera: microphones in a plane record sources in another plane, and a map of that plane is computed by
- * delay and sum. What a call needs is made once, in the constructor, and used again, so that calls make no objects; only
- * the numbers that cleanings have let grow get room when they first need it.
+ * delay and sum. What a call needs is made once, in the constructor, and used again, so that calls make no objects;
+ * only the numbers that cleanings have let grow get room when they first need it.
  */
 public final class AcousticCamera {
     public static final int NONE = -1;
@@ -34,7 +34,6 @@ public final class AcousticCamera {
 
     private static final int PART_BITS = 28;
     private static final long PART_MASK = 0xfffffffL;
-    private static final float PART_SCALE = 268435456.0f;
     /** See Wides for why so many are enough. */
     private static final int MOST_PARTS = 40;
 
@@ -380,7 +379,14 @@ public final class AcousticCamera {
     public int path(int length) throws IllegalStateException, IllegalArgumentException {
         needCamera();
         needRange(length, LEAST_BLOCK, scene.samples);
-        return blocks.changes(scene, now, length);
+        int count = 0;
+        int last = blocks.bestOf(scene, now, 0, length);
+        for (int from = length; from + length <= scene.samples; from += Math.max(length, 1)) {
+            int next = blocks.bestOf(scene, now, from, length);
+            count += next == last ? 0 : 1;
+            last = next;
+        }
+        return count;
     }
 
     public long trackScore(int length) throws IllegalStateException, IllegalArgumentException {
@@ -792,9 +798,9 @@ public final class AcousticCamera {
     }
 
     /**
-     * Whole numbers of any sign that may be far too great for a long: a number is the sum of its parts k times 2^(28 k).
-     * Every part but the last one is from 0 to 2^28 - 1, the last one from -2^28 to 2^28 - 1; all numbers of a table have
-     * equally many parts, so that they can be compared part by part.
+     * Whole numbers of any sign that may be far too great for a long: a number is the sum of its parts k times
+     * 2^(28 k). Every part but the last one is from 0 to 2^28 - 1, the last one from -2^28 to 2^28 - 1; all numbers of a
+     * table have equally many parts, so that they can be compared part by part.
      *
      * The parts never run out within the 512 calls of an object: a cleaning at most doubles the greatest sample, which
      * was at most 9999 when the recordings were made, so that a sample stays below 2^525, a beam below 2^532, and a sum
@@ -803,9 +809,9 @@ public final class AcousticCamera {
     private static final class Wides {
         private final int count;
         /** By part, then by number; the rows that were never needed are empty. */
-        private final long[][] rows = new long[MOST_PARTS][0];
+        final long[][] rows = new long[MOST_PARTS][0];
         /** How many parts the numbers have. */
-        private int used = 1;
+        int used = 1;
 
         Wides(int count) {
             this.count = Math.max(count, 0);
@@ -837,34 +843,25 @@ public final class AcousticCamera {
 
         /** Copies the numbers of a table of the same size. */
         void copyFrom(Wides other) {
+            widenTo(other.used);
             used = other.used;
             for (int part = 0; part < used; part++) {
-                makeRow(part);
                 System.arraycopy(other.rows[part], 0, rows[part], 0, Math.min(count, other.count));
             }
         }
 
         /** Adds a number, times a factor of one part, to number i. */
         void add(int i, Wides other, int k, int factor) {
-            addLoosely(i, other, k, factor);
-            settle(i);
-        }
-
-        /** As add, but the parts may leave their bounds: number i is to be settled when some few numbers are added. */
-        void addLoosely(int i, Wides other, int k, int factor) {
-            for (int parts = used; parts < other.used && parts < MOST_PARTS; parts++) {
-                widen();
-            }
+            widenTo(other.used);
             for (int part = 0; part < other.used; part++) {
                 rows[part][i] += factor * other.rows[part][k];
             }
+            settle(i);
         }
 
         /** Adds the product of two numbers to number i. */
         void addProduct(int i, Wides a, int j, Wides b, int k) {
-            for (int parts = used; parts < a.used + b.used && parts < MOST_PARTS; parts++) {
-                widen();
-            }
+            widenTo(a.used + b.used);
             for (int part = 0; part < used && part < a.used + b.used - 1; part++) {
                 long sum = 0L;
                 for (int left = Math.max(part - b.used + 1, 0); left <= part && left < a.used; left++) {
@@ -910,8 +907,8 @@ public final class AcousticCamera {
                 rows[part][i] = value & PART_MASK;
                 rows[part + 1][i] += value >> PART_BITS;
             }
-            for (int parts = used; parts < MOST_PARTS && isBeyondPart(rows[parts - 1][i]); parts++) {
-                widen();
+            for (int last = used - 1; last + 1 < MOST_PARTS && isBeyondPart(rows[last][i]); last++) {
+                widenTo(last + 2);
             }
         }
 
@@ -920,19 +917,18 @@ public final class AcousticCamera {
             return rest != 0L && rest != -1L;
         }
 
-        private void widen() {
-            makeRow(used);
-            for (int i = 0; i < count; i++) {
-                long last = rows[used - 1][i];
-                rows[used - 1][i] = last & PART_MASK;
-                rows[used][i] = last >> PART_BITS;
-            }
-            used++;
-        }
-
-        private void makeRow(int part) {
-            if (rows[part].length == 0) {
-                rows[part] = new long[count];
+        /** Gives the numbers so many parts, if they have fewer. */
+        void widenTo(int parts) {
+            for (int part = used; part < parts && part < MOST_PARTS; part++) {
+                if (rows[part].length == 0) {
+                    rows[part] = new long[count];
+                }
+                for (int i = 0; i < count; i++) {
+                    long last = rows[part - 1][i];
+                    rows[part - 1][i] = last & PART_MASK;
+                    rows[part][i] = last >> PART_BITS;
+                }
+                used = part + 1;
             }
         }
 
@@ -973,7 +969,7 @@ public final class AcousticCamera {
             }
             float ratio = leading(i) / divisor;
             for (int part = partsBelow(k); part < partsBelow(i); part++) {
-                ratio *= PART_SCALE;
+                ratio *= (float) (PART_MASK + 1L);
             }
             return ratio;
         }
@@ -1633,17 +1629,26 @@ public final class AcousticCamera {
             return Math.max(sampleCount - greatestDelay(delays), 0);
         }
 
-        /** Makes the beam at t; samples beyond the recordings count as 0. */
+        /** Makes the beam at t, part by part. */
         void focus(int[] delays, int t) {
             beam.narrow();
-            beam.clear(0);
+            beam.widenTo(samples.used);
+            for (int part = 0; part < samples.used; part++) {
+                beam.rows[part][0] = weighted(samples.rows[part], delays, t);
+            }
+            beam.settle(0);
+        }
+
+        /** The sum that the beam has of a row of parts; samples beyond the recordings count as 0. */
+        private long weighted(long[] row, int[] delays, int t) {
+            long sum = 0L;
             for (int mic = 0; mic < micCount; mic++) {
                 int at = t + delays[mic];
                 if (!muted[mic] && at >= 0 && at < sampleCount) {
-                    beam.addLoosely(0, samples, placeOf(mic, at), weights[mic]);
+                    sum += weights[mic] * row[placeOf(mic, at)];
                 }
             }
-            beam.settle(0);
+            return sum;
         }
 
         /** As the block of its window has it; a window of 0 leaves the sum, which is 0 then. */
@@ -1785,7 +1790,8 @@ public final class AcousticCamera {
             of.narrow();
             peakPowers.narrow();
             for (int cell = 0; cell < scene.grid.cells(); cell++) {
-                state.powerOf(scene.delays[cell], of, cell);
+                int[] delays = scene.delays[cell];
+                state.blockPowerOf(delays, 0, state.windowOf(delays), of, cell);
             }
             best = scene.grid.bestIn(scene.grid.whole, of, 0);
             peakCount = 0;
@@ -1859,17 +1865,6 @@ public final class AcousticCamera {
             scores.narrow();
             measure(scene, state, from, length, 0);
             return scene.grid.bestIn(scene.grid.whole, scores, 0);
-        }
-
-        int changes(Scene scene, State state, int length) {
-            int count = 0;
-            int last = bestOf(scene, state, 0, length);
-            for (int from = length; from + length <= scene.samples; from += Math.max(length, 1)) {
-                int next = bestOf(scene, state, from, length);
-                count += next == last ? 0 : 1;
-                last = next;
-            }
-            return count;
         }
 
         void score(Scene scene, State state, int length) {

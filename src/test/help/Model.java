@@ -14,7 +14,8 @@ import java.util.stream.Collectors;
 /**
  * The document written down a second time, sentence by sentence, slow and with the Java library: what ModelTest holds
  * the class against. It shares no code with the class, and computes everything anew at each question.
- * Sums of products are BigIntegers; an answer that does not fit its type is what is left of it there.
+ * Samples and what is worked out of them are BigIntegers, as nothing bounds what cleanings let them grow to; an answer
+ * that does not fit its type is what is left of it there.
  */
 public final class Model {
     /** A line of the text: its word, its wave (or null), its numbers. */
@@ -32,11 +33,12 @@ public final class Model {
     }
 
     /** x, y, vx, vy of each source by "what" and number, and so on: one map per property. */
-    private record State(boolean[] muted, int[] weight, boolean[] on, int[][] place, long[][] recordings, int cleaned) {
+    private record State(boolean[] muted, int[] weight, boolean[] on, int[][] place, BigInteger[][] recordings,
+            int cleaned) {
         State copy() {
             return new State(muted.clone(), weight.clone(), on.clone(),
                     Arrays.stream(place).map(int[]::clone).toArray(int[][]::new),
-                    Arrays.stream(recordings).map(long[]::clone).toArray(long[][]::new), cleaned);
+                    Arrays.stream(recordings).map(BigInteger[]::clone).toArray(BigInteger[][]::new), cleaned);
         }
     }
 
@@ -444,7 +446,7 @@ public final class Model {
 
     // ---- recordings, beams and powers
 
-    private long[][] recordings(State at) {
+    private BigInteger[][] recordings(State at) {
         List<int[][]> heard = new ArrayList<>();
         for (int s = 0; s < sources(); s++) {
             if (at.on[s]) {
@@ -454,8 +456,8 @@ public final class Model {
         return recordings(heard);
     }
 
-    private long[][] recordings(List<int[][]> heard) {
-        long[][] made = new long[mics()][samples()];
+    private BigInteger[][] recordings(List<int[][]> heard) {
+        BigInteger[][] made = new BigInteger[mics()][samples()];
         List<Integer> filter = camera.only("filter").isEmpty() ? List.of(1) : camera.only("filter");
         for (int mic = 0; mic < mics(); mic++) {
             int number = mic;
@@ -470,7 +472,7 @@ public final class Model {
                         sum += when < 0 ? 0 : (long) filter.get(i) * gain * one[mic][when];
                     }
                 }
-                made[mic][t] = Math.max(-camera.limit, Math.min(camera.limit, sum));
+                made[mic][t] = BigInteger.valueOf(Math.max(-camera.limit, Math.min(camera.limit, sum)));
             }
         }
         return made;
@@ -504,22 +506,23 @@ public final class Model {
         camera();
         index(mic, mics());
         range(t, 0, samples() - 1);
-        return (int) state.recordings[mic][t];
+        return state.recordings[mic][t].intValue();
     }
 
     public int beam(int cell, int t) {
         camera();
         index(cell, cells());
         range(t, 0, window(cell) - 1);
-        return (int) beam(state, centre(cell), t);
+        return beam(state, centre(cell), t).intValue();
     }
 
-    private long beam(State at, int[] point, int t) {
-        long sum = 0;
+    private BigInteger beam(State at, int[] point, int t) {
+        BigInteger sum = BigInteger.ZERO;
         for (int mic : active(at)) {
             int when = t + delayFrom(point[0], point[1], mic);
-            long value = when < samples() ? at.recordings[mic][when] : 0;
-            sum = Math.addExact(sum, Math.multiplyExact(value, at.weight[mic]));
+            if (when < samples()) {
+                sum = sum.add(at.recordings[mic][when].multiply(BigInteger.valueOf(at.weight[mic])));
+            }
         }
         return sum;
     }
@@ -528,13 +531,9 @@ public final class Model {
         int window = window(at, point);
         BigInteger sum = BigInteger.ZERO;
         for (int t = 0; t < window; t++) {
-            sum = sum.add(product(beam(at, point, t), beam(at, point, t)));
+            sum = sum.add(beam(at, point, t).pow(2));
         }
         return window == 0 ? BigInteger.ZERO : sum.divide(BigInteger.valueOf(window));
-    }
-
-    private static BigInteger product(long one, long two) {
-        return BigInteger.valueOf(one).multiply(BigInteger.valueOf(two));
     }
 
     private BigInteger[] powers(State at) {
@@ -652,7 +651,20 @@ public final class Model {
         BigInteger[] powers = powers(state);
         Arrays.sort(powers);
         int n = powers.length;
-        return n == 1 || powers[n - 2].signum() == 0 ? 0 : powers[n - 1].floatValue() / powers[n - 2].floatValue();
+        return n == 1 || powers[n - 2].signum() == 0 ? 0 : floatQuotient(powers[n - 1], powers[n - 2]);
+    }
+
+    /** Floats have 24 bits of a number; those that are too great for a float are taken without their exponents. */
+    private static float floatQuotient(BigInteger one, BigInteger two) {
+        int shift = Math.max(0, one.bitLength() - 100);
+        int otherShift = Math.max(0, two.bitLength() - 100);
+        return Math.scalb(leading(one, shift) / leading(two, otherShift), shift - otherShift);
+    }
+
+    private static float leading(BigInteger value, int shift) {
+        BigInteger rest = value.shiftRight(shift);
+        boolean exact = rest.shiftLeft(shift).equals(value);
+        return (exact ? rest : rest.setBit(0)).floatValue();
     }
 
     // ---- aliases
@@ -712,8 +724,7 @@ public final class Model {
             int window = window(cell);
             BigInteger sum = BigInteger.ZERO;
             for (int t = from; t < from + length; t++) {
-                long beam = t < window ? beam(state, centre(cell), t) : 0;
-                sum = sum.add(product(beam, beam));
+                sum = t < window ? sum.add(beam(state, centre(cell), t).pow(2)) : sum;
             }
             found[cell] = sum.divide(BigInteger.valueOf(length));
         }
@@ -812,7 +823,7 @@ public final class Model {
         BigInteger sum = BigInteger.ZERO;
         for (int t = 0; t < samples(); t++) {
             int[] point = {centre(cell)[0] + vx * t / 100, centre(cell)[1] + vy * t / 100};
-            sum = sum.add(product(beam(state, point, t), beam(state, point, t)));
+            sum = sum.add(beam(state, point, t).pow(2));
         }
         return sum.divide(BigInteger.valueOf(samples()));
     }
@@ -848,7 +859,7 @@ public final class Model {
     private BigInteger productSum(int mic, int other, int lag) {
         BigInteger sum = BigInteger.ZERO;
         for (int t = 0; t <= samples() - 1 - lag; t++) {
-            sum = sum.add(product(state.recordings[mic][t], state.recordings[other][t + lag]));
+            sum = sum.add(state.recordings[mic][t].multiply(state.recordings[other][t + lag]));
         }
         return sum;
     }
@@ -872,7 +883,7 @@ public final class Model {
     }
 
     private BigInteger exactLevel(int mic) {
-        return sum(Arrays.stream(state.recordings[mic]).mapToObj(value -> product(value, value)).toList())
+        return sum(Arrays.stream(state.recordings[mic]).map(value -> value.pow(2)).toList())
                 .divide(BigInteger.valueOf(samples()));
     }
 
@@ -915,7 +926,7 @@ public final class Model {
     private State point(int cell, int period) {
         int[] centre = centre(cell);
         Line source = new Line("source", "square", List.of(centre[0], centre[1], 0, 0, 100, period, 0), 0);
-        long[][] made = recordings(List.<int[][]>of(heard(source, new int[] {centre[0], centre[1], 0, 0})));
+        BigInteger[][] made = recordings(List.<int[][]>of(heard(source, new int[] {centre[0], centre[1], 0, 0})));
         return new State(state.muted, state.weight, state.on, state.place, made, 0);
     }
 
@@ -1029,8 +1040,10 @@ public final class Model {
                 copied.cleaned + 1);
         for (int t = 0; t < window(best); t++) {
             for (int mic : active(state)) {
-                long part = Math.multiplyExact(beam(state, centre(best), t), percent) / (100 * sum);
-                changed.recordings[mic][t + delay(mic, best)] -= part;
+                BigInteger part = beam(state, centre(best), t).multiply(BigInteger.valueOf(percent))
+                        .divide(BigInteger.valueOf(100 * sum));
+                int when = t + delay(mic, best);
+                changed.recordings[mic][when] = changed.recordings[mic][when].subtract(part);
             }
         }
         change(changed);

@@ -1,3 +1,5 @@
+import java.math.BigInteger;
+
 /**
  * Cleanings can let the samples grow: here by turns that are worked out beside the class. All delays are 0, and the
  * source is square, so the samples of a microphone are its loudness or the negative of it, and every power is a square.
@@ -5,14 +7,18 @@
 public final class GreatTest {
     private static final int SAMPLES = 200;
     private static final int PERIOD = 10;
-    private static final int MOST_TURNS = 23;
-    private static final String TEXT = "camera distance 5000 step 99 samples 200 limit 9999;mic 0 0 1;mic 1 0 2;mic 0 1 4"
-            + ";shade 0;map 0 0 1 3 2;zone 1 1 1 1;source square 0 0 0 0 999 10 0";
+    /** After so many turns the answers still fit their types. */
+    private static final int MOST_TOLD = 23;
+    /** As many as an object is good for, with the questions that are asked then. */
+    private static final int MOST_TURNS = 53;
+    private static final int LONG_BITS = 63;
+    private static final String TEXT = "camera distance 5000 step 99 samples 200 limit 9999;mic 0 0 1;mic 1 0 2"
+            + ";mic 0 1 4;shade 0;map 0 0 1 3 2;zone 1 1 1 1;source square 0 0 0 0 999 10 0";
 
     private final AcousticCamera camera = Check.loaded(TEXT);
-    private long first = 999;
-    private long second = 1998;
-    private long third = 3996;
+    private BigInteger first = BigInteger.valueOf(999);
+    private BigInteger second = BigInteger.valueOf(1998);
+    private BigInteger third = BigInteger.valueOf(3996);
 
     public static void main(String[] args) {
         for (int turns = 1; turns <= MOST_TURNS; turns++) {
@@ -21,8 +27,12 @@ public final class GreatTest {
             for (int i = 0; i < turns; i++) {
                 test.turn();
             }
-            test.asked(turns);
-            Check.due("the samples grow", turns < MOST_TURNS || Math.abs(test.second) > 2_000_000_000L, true);
+            String when = " after turn " + turns;
+            if (turns <= MOST_TOLD) {
+                test.told(when);
+            }
+            test.compared(when);
+            Check.due("the samples grow" + when, test.second.bitLength() > 9 + turns * 7 / 8, true);
         }
         Check.end();
     }
@@ -32,41 +42,47 @@ public final class GreatTest {
         camera.mute(2, true);
         camera.clean(100);
         camera.mute(2, false);
-        first -= second;
-        second = 0;
+        first = first.subtract(second);
+        second = BigInteger.ZERO;
         camera.mute(1, true);
         camera.clean(100);
         camera.mute(1, false);
-        first -= third;
-        third = 0;
+        first = first.subtract(third);
+        third = BigInteger.ZERO;
         camera.setWeight(0, 9);
         camera.clean(100);
         camera.setWeight(0, 0);
-        long part = 9 * first * 100 / 1100;
-        first -= part;
-        second -= part;
-        third -= part;
+        BigInteger part = first.multiply(BigInteger.valueOf(9 * 100)).divide(BigInteger.valueOf(1100));
+        first = first.subtract(part);
+        second = second.subtract(part);
+        third = third.subtract(part);
     }
 
-    private void asked(int turns) {
-        String when = " after turn " + turns;
-        Check.due("sample(0, 0)" + when, (long) camera.sample(0, 0), first);
-        Check.due("sample(1, 5)" + when, (long) camera.sample(1, 5), -second);
+    private void told(String when) {
+        Check.due("sample(0, 0)" + when, camera.sample(0, 0), first.intValue());
+        Check.due("sample(1, 5)" + when, camera.sample(1, 5), second.negate().intValue());
+        Check.due("level(0)" + when, camera.level(0), first.pow(2).longValueExact());
+        Check.due("level(2)" + when, camera.level(2), third.pow(2).longValueExact());
+        BigInteger product = first.multiply(second);
+        Check.due("correlation(0, 1, 199)" + when, camera.correlation(0, 1, SAMPLES - 1), -product.longValueExact());
+        BigInteger sum = product.multiply(BigInteger.valueOf(SAMPLES - PERIOD));
+        if (sum.bitLength() <= LONG_BITS) {
+            Check.due("correlation(1, 0, 10)" + when, camera.correlation(1, 0, PERIOD), sum.longValueExact());
+        }
         for (int weight = 0; weight <= 9; weight += 3) {
             camera.setWeight(0, weight);
-            powers(weight * first + second + third, " with weight " + weight + when);
+            BigInteger beam = first.multiply(BigInteger.valueOf(weight)).add(second).add(third);
+            if (beam.bitLength() <= 31) {
+                powers(beam, " with weight " + weight + when);
+            }
         }
         camera.setWeight(0, 0);
-        compared(when);
     }
 
-    private void powers(long beam, String when) {
-        long power = beam * beam;
-        if ((int) beam != beam) {
-            return;
-        }
-        Check.due("beam(0, 0)" + when, (long) camera.beam(0, 0), beam);
-        Check.due("beam(5, 9)" + when, (long) camera.beam(5, 9), -beam);
+    private void powers(BigInteger beam, String when) {
+        long power = beam.pow(2).longValueExact();
+        Check.due("beam(0, 0)" + when, camera.beam(0, 0), beam.intValue());
+        Check.due("beam(5, 9)" + when, camera.beam(5, 9), beam.negate().intValue());
         Check.due("power(5)" + when, camera.power(5), power);
         Check.due("powerAt(1, 1)" + when, camera.powerAt(1, 1), power);
         Check.due("bestPower()" + when, camera.bestPower(), power);
@@ -91,18 +107,18 @@ public final class GreatTest {
         }
     }
 
+    /** What fits its type however far the samples have grown. */
     private void compared(String when) {
-        Check.due("level(0)" + when, camera.level(0), first * first);
-        Check.due("level(2)" + when, camera.level(2), third * third);
-        int loudest = Math.abs(first) >= Math.abs(second) ? 0 : 1;
-        Check.due("loudest(0)" + when, camera.loudest(0), loudest);
+        Check.due("loudest(0)" + when, camera.loudest(0), first.abs().compareTo(second.abs()) >= 0 ? 0 : 1);
         Check.due("bestLag(0, 0, 199)" + when, camera.bestLag(0, 0, SAMPLES - 1), 0);
         // a correlation of the opposite sign is greatest half a period later
-        boolean opposed = (first < 0) != (second < 0);
+        boolean opposed = first.signum() * second.signum() < 0;
         Check.due("bestLag(0, 1, 199)" + when, camera.bestLag(0, 1, SAMPLES - 1), opposed ? PERIOD / 2 : 0);
-        Check.due("correlation(0, 1, 199)" + when, camera.correlation(0, 1, SAMPLES - 1), -first * second);
-        if (Math.abs(first) < 100_000_000L) {
-            Check.due("correlation(1, 0, 10)" + when, camera.correlation(1, 0, PERIOD), 190 * second * first);
-        }
+        Check.due("blockBest(3, 97)" + when, camera.blockBest(3, 97), 0);
+        Check.due("trackCell(4, 49)" + when, camera.trackCell(4, 49), 0);
+        Check.due("bestVelocity(2, 1, 1)" + when, camera.bestVelocity(2, 1, 1), 0);
+        Check.due("contrast()" + when, camera.contrast(), 1.0f);
+        camera.writeMap();
+        Check.due("mapByte(6)" + when, camera.mapByte(6), (int) '9');
     }
 }

@@ -17,6 +17,7 @@ public final class ModelTest {
     private static final int RUNS = 800;
     private static final int GREAT_RUNS = 160;
     private static final int TEXTS = 6000;
+    private static final int MOST_CALLS = 512;
     private static final Map<String, String> ARGUMENTS = arguments();
     private static final List<String> CHANGES =
             List.of("mute", "setWeight", "setOn", "moveSource", "setVelocity", "clean", "clean", "undo", "restore");
@@ -97,21 +98,24 @@ public final class ModelTest {
         return true;
     }
 
-    /** Cleanings in turns that let the samples grow, some 0.9 bits a turn: past an int, and the sums past a long. */
+    /**
+     * Cleanings in turns that let the samples grow, some 0.9 bits a turn: past an int, and the sums past a long; in all
+     * the calls of an object the samples times a percent, too.
+     */
     private boolean runGreat(List<String> names) {
         if (!loads(loudText()) || !same("setWeight", new Object[] {0, 0})) {
             return false;
         }
         List<String> questions = new ArrayList<>(names);
         questions.removeAll(CHANGES);
-        int turns = 15 + random.nextInt(25);
-        for (int i = 0; i < turns; i++) {
-            if (!turn(0, 2, 1) || !same("contrast", new Object[0])
-                    || (i > 15 && !asks(questions, questions, random.nextInt(3), 1))) {
+        int turns = 15 + random.nextInt(40);
+        for (int i = 0; i < turns && calls.size() <= MOST_CALLS - 11; i++) {
+            if (!turn(0, 2, 1) || (i % 8 == 7 && !asks(questions, questions, random.nextInt(6), 1))
+                    || (i % 8 == 0 && !same("contrast", new Object[0]))) {
                 return false;
             }
         }
-        return asks(questions, SMALL_CHANGES, 60, 12);
+        return asks(questions, SMALL_CHANGES, Math.min(60, MOST_CALLS - calls.size()), 12);
     }
 
     private boolean turn(int one, int two, int three) {
