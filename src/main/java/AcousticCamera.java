@@ -886,17 +886,16 @@ public final class AcousticCamera {
                 return;
             }
             boolean negative = rows[used - 1][i] < 0L;
-            if (negative) {
-                multiply(i, -1);
-            }
             long rest = 0L;
             for (int part = used - 1; part >= 0; part--) {
                 long dividend = (rest << PART_BITS) + rows[part][i];
-                rows[part][i] = dividend / divisor;
-                rest = dividend % divisor;
+                rows[part][i] = Math.floorDiv(dividend, (long) divisor);
+                rest = Math.floorMod(dividend, (long) divisor);
             }
-            if (negative) {
-                multiply(i, -1);
+            if (negative && rest > 0L) {
+                // rounded down so far
+                rows[0][i]++;
+                settle(i);
             }
         }
 
