@@ -799,8 +799,8 @@ public final class AcousticCamera {
 
     /**
      * Whole numbers of any sign that may be far too great for a long: a number is the sum of its parts k times
-     * 2^(28 k). Every part but the last one is from 0 to 2^28 - 1, the last one from -2^28 to 2^28 - 1; all numbers of a
-     * table have equally many parts, so that they can be compared part by part.
+     * 2^(28 k). Every part but the last one is from 0 to 2^28 - 1, the last one from -2^28 to 2^28 - 1; all numbers of
+     * a table have equally many parts, so that they can be compared part by part.
      *
      * The parts never run out within the 512 calls of an object: a cleaning at most doubles the greatest sample, which
      * was at most 9999 when the recordings were made, so that a sample stays below 2^525, a beam below 2^532, and a sum
