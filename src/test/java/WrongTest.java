@@ -1,94 +1,33 @@
-import java.lang.reflect.InvocationTargetException;
 import java.lang.reflect.Method;
-import java.util.Arrays;
 import java.util.Set;
 import java.util.TreeSet;
 
 /** Wrong inputs at every method: which exception is thrown, the first one listed if several apply, and no change. */
 public final class WrongTest {
-    /** Two microphones, 6 cells, a source, 32 samples, two zones, two peaks at the most. */
-    private static final String TEXT = "camera distance 100 step 1 samples 32 limit 9999;mic 0 0 1;mic 75 0 2"
-            + ";map 0 0 75 3 2;source pulse 0 0 0 0 10 16 0;zone 0 0 1 1;zone 1 1 1 1";
-
-    /** A call and what it throws: S a state, X an index, A an argument; the numbers at a bound and beyond it. */
-    private static final String CALLS = """
-            micAt(-1,0)X micAt(2,0)X micAt(2,4)X micAt(0,-1)A micAt(0,4)A isMuted(-1)X isMuted(2)X
-            cellAt(-1,0)X cellAt(6,0)X cellAt(6,2)X cellAt(5,-1)A cellAt(5,2)A
-            sourceAt(-1,0,0)X sourceAt(1,0,0)X sourceAt(1,2,32)X sourceAt(0,2,0)A sourceAt(0,-1,0)A
-            sourceAt(0,0,-1)A sourceAt(0,0,32)A isOn(-1)X isOn(1)X waveAt(1,0)X waveAt(-1,-1)X waveAt(0,-1)A
-            waveAt(0,32)A delay(2,0)X delay(-1,0)X delay(0,6)X delay(0,-1)X delayTo(2,0,0)X delayTo(-1,10000,0)X
-            delayTo(0,10000,0)A delayTo(0,-10000,0)A delayTo(0,0,10000)A delayTo(0,0,-10000)A
-            spread(6)X spread(-1)X window(6)X window(-1)X sample(2,0)X sample(-1,32)X sample(0,32)A sample(0,-1)A
-            beam(6,0)X beam(-1,-1)X beam(0,-1)A beam(0,7)A power(6)X power(-1)X powerAt(10000,0)A powerAt(-10000,0)A
-            powerAt(0,10000)A powerAt(0,-10000)A peakAt(-1)X peakAt(6)X isPeak(6)X isPeak(-1)X
-            zonePower(2)X zonePower(-1)X zoneBest(2)X zoneBest(-1)X
-            alias(6,0,2)X alias(-1,0,2)X alias(0,6,2)X alias(0,-1,1)X alias(0,0,1)A alias(0,0,100)A
-            isAlias(6,2,1)X isAlias(-1,1,0)X isAlias(0,1,1)A isAlias(0,100,1)A isAlias(0,2,0)A isAlias(0,2,101)A
-            aliases(1,1)A aliases(100,1)A aliases(2,0)A aliases(2,101)A
-            blockPower(6,0,1)X blockPower(-1,-1,0)X blockPower(0,-1,1)A blockPower(0,32,1)A blockPower(0,0,0)A
-            blockPower(0,0,33)A blockBest(-1,1)A blockBest(32,1)A blockBest(0,0)A blockBest(0,33)A
-            path(3)A path(33)A trackScore(3)A trackScore(33)A trackCell(4,8)X trackCell(4,-1)X trackCell(32,1)X
-            trackCell(3,0)A trackCell(33,0)A trackCell(0,0)A trackCell(-4,9)A
-            movingPower(6,0,0)X movingPower(-1,1000,0)X movingPower(0,1000,0)A movingPower(0,-1000,0)A
-            movingPower(0,0,1000)A movingPower(0,0,-1000)A bestVelocity(6,1,0)X bestVelocity(-1,0,5)X
-            bestVelocity(0,0,0)A bestVelocity(0,100,0)A bestVelocity(0,1,-1)A bestVelocity(0,1,5)A
-            correlation(2,0,0)X correlation(0,2,0)X correlation(-1,0,32)X correlation(0,-1,0)X correlation(0,0,-1)A
-            correlation(0,0,32)A bestLag(2,0,0)X bestLag(0,2,0)X bestLag(-1,0,32)X bestLag(0,-1,0)X bestLag(0,0,-1)A
-            bestLag(0,0,32)A level(2)X level(-1)X loudest(2)X loudest(-1)X mapByte(0)X mapByte(-1)X
-            pointBest(6,2)X pointBest(-1,1)X pointBest(0,1)A pointBest(0,100)A pointPower(6,0,2)X pointPower(0,6,2)X
-            pointPower(-1,0,1)X pointPower(0,-1,2)X pointPower(0,0,1)A pointPower(0,0,100)A
-            bestWithout(2)X bestWithout(-1)X bestIfOff(1)X bestIfOff(-1)X mute(2,1)X mute(-1,0)X
-            setWeight(2,0)X setWeight(-1,10)X setWeight(0,10)A setWeight(0,-1)A setOn(1,0)X setOn(-1,1)X
-            moveSource(1,0,0)X moveSource(-1,2001,0)X moveSource(0,2001,0)A moveSource(0,-2001,0)A
-            moveSource(0,0,2001)A moveSource(0,0,-2001)A setVelocity(1,0,0)X setVelocity(-1,1000,0)X
-            setVelocity(0,1000,0)A setVelocity(0,-1000,0)A setVelocity(0,0,1000)A setVelocity(0,0,-1000)A
-            clean(0)A clean(101)A save(2)X save(-1)X restore(2)X restore(-1)X restore(0)S restore(1)S undo()S
-            load(1)X load(-1)X load(0)A
-            """;
-
-    /** Calls with the numbers at their bounds, which throw nothing. */
-    private static final String RIGHT = """
-            micAt(0,0) micAt(1,3) isMuted(0) isMuted(1) cellAt(0,0) cellAt(5,1) sourceAt(0,0,0) sourceAt(0,1,31)
-            isOn(0) waveAt(0,0) waveAt(0,31) delay(0,0) delay(1,5) delayTo(0,-9999,-9999) delayTo(1,9999,9999)
-            spread(0) spread(5) window(0) window(5) sample(0,0) sample(1,31) beam(0,0) beam(0,6) power(0) power(5)
-            powerAt(-9999,-9999) powerAt(9999,9999) peakAt(0) isPeak(0) isPeak(5) zonePower(0) zonePower(1)
-            zoneBest(0) zoneBest(1) alias(0,0,2) alias(5,5,99) isAlias(0,2,1) isAlias(5,99,100) aliases(2,1)
-            aliases(99,100) blockPower(0,0,1) blockPower(5,31,32) blockBest(0,1) blockBest(31,32) path(4) path(32)
-            trackScore(4) trackScore(32) trackCell(4,0) trackCell(4,7) trackCell(32,0) movingPower(0,-999,-999)
-            movingPower(5,999,999) bestVelocity(0,1,0) bestVelocity(5,99,4) correlation(0,0,0) correlation(1,1,31)
-            bestLag(0,0,0) bestLag(1,1,31) level(0) level(1) loudest(0) loudest(1) pointBest(0,2) pointBest(5,99)
-            pointPower(0,0,2) pointPower(5,5,99) bestWithout(0) bestWithout(1) bestIfOff(0) mute(0,1) mute(1,0)
-            setWeight(0,0) setWeight(1,9) setOn(0,0) setOn(0,1) moveSource(0,-2000,-2000) moveSource(0,2000,2000)
-            setVelocity(0,-999,-999) setVelocity(0,999,999) clean(1) clean(100) save(0) save(1)
-            """;
-
-    /** What needs no camera, or tells of something else first. */
-    private static final Set<String> ELSEWHERE = Set.of("append", "load", "parseError", "errorPosition", "buffered",
-            "mics", "columns", "rows", "sources", "samples", "mapByte", "undoable", "restore");
-
-    public static void main(String[] args) throws Exception {
+    public static void main(String[] args) {
         Set<String> met = new TreeSet<>();
-        for (String call : CALLS.strip().split("\\s+")) {
-            String name = call.substring(0, call.indexOf('('));
+        for (String call : Calls.WRONG.strip().split("\\s+")) {
+            String name = Calls.nameOf(call);
             met.add(name);
             AcousticCamera bare = new AcousticCamera();
-            AcousticCamera full = Check.loaded(TEXT);
-            Check.due(call, answer(full, call), call.substring(call.length() - 1));
+            AcousticCamera full = Check.loaded(Calls.TEXT);
+            Check.due(call, Calls.answer(full, call), call.substring(call.length() - 1));
             Check.due(call + " changes nothing", full.undoable() + full.best() + full.sample(0, 0), 10);
-            if (!ELSEWHERE.contains(name)) {
-                Check.due(call + " without a camera", answer(bare, call), "S");
+            if (!Calls.ELSEWHERE.contains(name)) {
+                Check.due(call + " without a camera", Calls.answer(bare, call), "S");
             }
         }
-        for (String call : RIGHT.strip().split("\\s+")) {
-            String answer = answer(Check.loaded(TEXT), call);
-            Check.due(call + " throws", answer.matches("-?[0-9.]+|true|false") ? "nothing" : answer, "nothing");
+        for (String call : Calls.RIGHT.strip().split("\\s+")) {
+            String answer = Calls.answer(Check.loaded(Calls.TEXT), call);
+            Check.due(call + " throws", Calls.isThrown(answer) ? answer : "nothing", "nothing");
         }
+        farthest();
         for (Method method : AcousticCamera.class.getMethods()) {
             boolean own = method.getDeclaringClass() == AcousticCamera.class;
-            if (own && !ELSEWHERE.contains(method.getName()) && method.getExceptionTypes().length > 0) {
+            if (own && !Calls.ELSEWHERE.contains(method.getName()) && method.getExceptionTypes().length > 0) {
                 String zeros = String.join(",", java.util.Collections.nCopies(method.getParameterCount(), "0"));
                 String call = method.getName() + "(" + zeros + ") ";
-                Check.due(call + "without a camera", answer(new AcousticCamera(), call), "S");
+                Check.due(call + "without a camera", Calls.answer(new AcousticCamera(), call), "S");
                 boolean canBeWrong = method.getParameterCount() > 0 || method.getName().equals("undo");
                 Check.due(call + "is met", met.contains(method.getName()), canBeWrong);
             }
@@ -96,26 +35,21 @@ public final class WrongTest {
         Check.end();
     }
 
-    private static String answer(AcousticCamera camera, String call) throws Exception {
-        String name = call.substring(0, call.indexOf('('));
-        String inside = call.substring(call.indexOf('(') + 1, call.indexOf(')'));
-        String[] numbers = inside.isEmpty() ? new String[0] : inside.split(",");
-        Method method = Arrays.stream(AcousticCamera.class.getMethods())
-                .filter(one -> one.getName().equals(name)).findFirst().get();
-        Object[] values = new Object[numbers.length];
-        for (int i = 0; i < numbers.length; i++) {
-            int value = Integer.parseInt(numbers[i]);
-            values[i] = method.getParameterTypes()[i] == boolean.class ? (Object) (value == 1) : (Object) value;
-        }
-        try {
-            return "" + method.invoke(camera, values);
-        } catch (InvocationTargetException e) {
-            return switch (e.getCause().getClass().getSimpleName()) {
-                case "IllegalStateException" -> "S";
-                case "IndexOutOfBoundsException" -> "X";
-                case "IllegalArgumentException" -> "A";
-                default -> e.getCause().toString();
-            };
+    /** Each number of a right call, made as small and as great as an int can be. */
+    private static void farthest() {
+        for (String call : (Calls.RIGHT.strip() + " mapByte(0) restore(0) load(0)").split("\\s+")) {
+            String inside = call.substring(call.indexOf('(') + 1, call.indexOf(')'));
+            String[] numbers = inside.isEmpty() ? new String[0] : inside.split(",");
+            boolean lastIsFlag = Set.of("mute", "setOn").contains(Calls.nameOf(call));
+            for (int i = 0; i < numbers.length - (lastIsFlag ? 1 : 0); i++) {
+                for (int extreme : new int[] {Integer.MIN_VALUE, Integer.MAX_VALUE}) {
+                    String[] spoiled = numbers.clone();
+                    spoiled[i] = "" + extreme;
+                    String far = Calls.nameOf(call) + "(" + String.join(",", spoiled) + ")";
+                    String answer = Calls.answer(Check.loaded(Calls.TEXT), far);
+                    Check.due(far + " answers " + answer, answer.matches("[XA]"), true);
+                }
+            }
         }
     }
 }
