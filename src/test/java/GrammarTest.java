@@ -46,6 +46,7 @@ public final class GrammarTest {
                 inside(line, tokens, i);
                 outside(line, tokens, i);
                 notAllowed(line, tokens, i);
+                misspelt(line, tokens, i);
                 cutOff(line, tokens, i);
             }
             behind(line, tokens);
@@ -158,6 +159,25 @@ public final class GrammarTest {
         }
         fails(before, (char) 128 + after, 1, 0);
         fails(before, (char) 255 + after, 1, 0);
+    }
+
+    /** A word with a letter changed, left out or put in. */
+    private static void misspelt(String[] line, String[] tokens, int place) {
+        if (!tokens[place].matches("[a-z]{3,}")) {
+            return;
+        }
+        String word = tokens[place];
+        String before = before(line, tokens, place);
+        String after = after(line, tokens, place);
+        for (int i = 0; i < word.length(); i++) {
+            char other = word.charAt(i) == 'z' ? 'a' : 'z';
+            fails(before, word.substring(0, i) + other + word.substring(i + 1) + after, 1, 0);
+            fails(before, word.substring(0, i) + word.substring(i + 1) + after, 1, 0);
+            fails(before, word.substring(0, i) + other + word.substring(i) + after, 1, 0);
+            fails(before, word.substring(0, i) + Character.toUpperCase(word.charAt(i)) + word.substring(i + 1) + after,
+                    1, 0);
+        }
+        fails(before, word + "z" + after, 1, 0);
     }
 
     private static void cutOff(String[] line, String[] tokens, int place) {

@@ -15,15 +15,23 @@ public final class GreatTest {
     private static final String TEXT = "camera distance 5000 step 99 samples 200 limit 9999;mic 0 0 1;mic 1 0 2"
             + ";mic 0 1 4;shade 0;map 0 0 1 3 2;zone 1 1 1 1;source square 0 0 0 0 999 10 0";
 
-    private final AcousticCamera camera = Check.loaded(TEXT);
-    private BigInteger first = BigInteger.valueOf(999);
-    private BigInteger second = BigInteger.valueOf(1998);
-    private BigInteger third = BigInteger.valueOf(3996);
+    /** No camera is asked if the text is null. */
+    private final AcousticCamera camera;
+    private BigInteger first;
+    private BigInteger second;
+    private BigInteger third;
+
+    private GreatTest(String text, int loudness) {
+        camera = text == null ? null : Check.loaded(text);
+        first = BigInteger.valueOf(loudness);
+        second = BigInteger.valueOf(2L * loudness);
+        third = BigInteger.valueOf(4L * loudness);
+    }
 
     public static void main(String[] args) {
         for (int turns = 1; turns <= MOST_TURNS; turns++) {
             // one object each, as an object is good for 512 calls only
-            GreatTest test = new GreatTest();
+            GreatTest test = new GreatTest(TEXT, 999);
             for (int i = 0; i < turns; i++) {
                 test.turn();
             }
@@ -34,28 +42,65 @@ public final class GreatTest {
             test.compared(when);
             Check.due("the samples grow" + when, test.second.bitLength() > 9 + turns * 7 / 8, true);
         }
+        contrasts();
         Check.end();
+    }
+
+    /**
+     * The first cell hears a loud source at 0 and a soft one at 25, the second cell, with delays of 20, the soft one
+     * alone; both grow alike, so that the powers stay far apart.
+     */
+    private static void contrasts() {
+        GreatTest loud = new GreatTest("camera distance 100 step 1 samples 32 limit 9999;map 0 0 67 2 1;shade 0"
+                + ";mic 0 0 1;mic 0 0 2;mic 0 0 4;source pulse 0 0 0 0 999 99 0;source pulse 0 0 0 0 1 99 74", 999);
+        GreatTest soft = new GreatTest(null, 1);
+        for (int turns = 1; turns <= MOST_TOLD; turns++) {
+            loud.turn();
+            soft.turn();
+            BigInteger two = soft.second.add(soft.third).pow(2);
+            BigInteger one = loud.second.add(loud.third).pow(2).add(two).divide(BigInteger.valueOf(32));
+            two = two.divide(BigInteger.valueOf(12));
+            String when = " after turn " + turns + " of two";
+            Check.due("power(0)" + when, loud.camera.power(0), one.longValueExact());
+            Check.due("power(1)" + when, loud.camera.power(1), two.longValueExact());
+            Check.due("contrast()" + when, loud.camera.contrast(), two.signum() == 0 ? 0.0f
+                    : (float) one.longValueExact() / (float) two.longValueExact());
+        }
+        Check.due("the powers are far apart", loud.camera.contrast() > 100_000.0f, true);
+        Check.due("the greater one takes more than two parts", loud.camera.bestPower() > 1L << 56, true);
     }
 
     /** The weights are 0, 1 and 1: the beam of two microphones is that of the one whose weight is 1. */
     private void turn() {
-        camera.mute(2, true);
-        camera.clean(100);
-        camera.mute(2, false);
+        change(2);
         first = first.subtract(second);
         second = BigInteger.ZERO;
-        camera.mute(1, true);
-        camera.clean(100);
-        camera.mute(1, false);
+        change(1);
         first = first.subtract(third);
         third = BigInteger.ZERO;
-        camera.setWeight(0, 9);
-        camera.clean(100);
-        camera.setWeight(0, 0);
+        change(0);
         BigInteger part = first.multiply(BigInteger.valueOf(9 * 100)).divide(BigInteger.valueOf(1100));
         first = first.subtract(part);
         second = second.subtract(part);
         third = third.subtract(part);
+    }
+
+    /** A cleaning without a microphone, or, for the first one, with a weight of 9 for it. */
+    private void change(int mic) {
+        if (camera == null) {
+            return;
+        }
+        if (mic == 0) {
+            camera.setWeight(0, 9);
+        } else {
+            camera.mute(mic, true);
+        }
+        Check.due("clean(100)", camera.clean(100), 0);
+        if (mic == 0) {
+            camera.setWeight(0, 0);
+        } else {
+            camera.mute(mic, false);
+        }
     }
 
     private void told(String when) {

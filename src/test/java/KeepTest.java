@@ -27,6 +27,7 @@ public final class KeepTest {
         newObject();
         inputBuffer();
         loads();
+        loadsAfterLoads();
         loadsThatFail();
         changesThatAlterNothing();
         latestChanges();
@@ -163,9 +164,9 @@ public final class KeepTest {
         Calls.run("promise 2, room for twenty bytes", x, "buffered()=980");
         Check.put(x, text.substring(980));
         Calls.run("promise 2, no room", x, "buffered()=1000 append(0,0,0,0,0)=-1 buffered()=1000"
-                + " append(-1,-1,-1,-1,-1)=-1"
-                + " load(1001)=X load(2147483647)=X load(-1)=X load(-2147483648)=X buffered()=1000 parseError()=0"
-                + " errorPosition()=-1 load(1000)=6 buffered()=0 load(1)=X load(0)=A buffered()=0");
+                + " append(-1,-1,-1,-1,-1)=-1 load(1001)=X load(2147483647)=X load(-1)=X load(-2147483648)=X"
+                + " buffered()=1000 parseError()=0 errorPosition()=-1 load(1000)=6 buffered()=0 load(1)=X load(0)=A"
+                + " buffered()=0");
         // a byte of each argument, the most significant one first, and bytes of 128 and more
         int blank = 0x20202020;
         int[] words = {blank, blank, blank, blank, blank};
@@ -190,6 +191,58 @@ public final class KeepTest {
         Calls.run("promise 3, nothing is kept", emptiedAndLoaded(prepared()), "undoable()=0 undo()=S restore(0)=S"
                 + " restore(1)=S cleaned()=0 micAt(0,3)=1 micAt(1,3)=1 sourceAt(0,0,31)=0 parseError()=0"
                 + " errorPosition()=-1 buffered()=0 save(1)=0 restore(0)=S restore(1)=0");
+    }
+
+    /** All that a text can have, loud and long. */
+    private static final String RICH = "camera distance 200 step 3 samples 200 limit 9999;fade 7;filter 9 8 -7 6 -5"
+            + ";shade 9 8 7 6 5 4 3 2 1 0 9 8;map -99 -99 9 12 12;wall 50 99;wall -50 98" + ";mic 5 6 9".repeat(12)
+            + ";source noise 1 2 3 4 999 98 97 from 5".repeat(6) + ";zone 1 2 3 4".repeat(4) + ";off 0;off 1;off 5"
+            + ";clock 0 9;clock 1 8;clock 2 7;clock 11 6";
+
+    private static final String PLAIN = "camera distance 100 step 1 samples 32 limit 9999;mic 0 0 1;mic 75 0 1"
+            + ";map 0 0 25 3 1;source square 0 0 0 0 10 16 0;source triangle 25 0 9 9 30 7 1";
+
+    /** Nothing of the cameras before is left in what a text does not tell. */
+    private static void loadsAfterLoads() {
+        String[] others = {";zone 0 0 1 0", ";filter 1 -1", ";fade 50", ";shade 2", ";wall 100 50", ";clock 1 3",
+                ";off 1",
+            ";mic 5 5 5", ";source pulse 0 0 0 0 5 5 5 from 3", ""};
+        for (String other : others) {
+            String due = all(Check.loaded(PLAIN + other));
+            for (int way = 0; way < 4; way++) {
+                AcousticCamera x = new AcousticCamera();
+                for (int i = 0; i < 1 + way % 3; i++) {
+                    x.load(Check.put(x, RICH));
+                }
+                Calls.run("rich", x, "mute(1,1)=false setWeight(0,5)=9 moveSource(0,9,9)=" + Calls.answer(x,
+                        "moveSource(0,9,9)") + " setVelocity(1,9,9)=" + Calls.answer(x, "setVelocity(1,9,9)"));
+                Check.due("a rich one is cleaned", x.clean(100) >= 0, true);
+                if (way == 3) {
+                    int n = Check.put(x, RICH + ";off 9");
+                    Check.noArgument("load of a spoiled one", () -> x.load(n));
+                    Check.due("its error", x.parseError(), 2);
+                }
+                x.load(Check.put(x, PLAIN + other));
+                same("way " + way + " of " + other, all(x), due);
+            }
+        }
+    }
+
+    private static String all(AcousticCamera x) {
+        StringBuilder calls = new StringBuilder("mics() sources() columns() rows() samples() micAt(0,3) micAt(1,3)"
+                + " micAt(2,3) isMuted(1) isOn(0) isOn(1) isOn(2) zonePower(0) zoneBest(0) zonePower(1)"
+                + " sourceAt(1,0,31) sourceAt(0,0,31) peaks() best() bestPower() meanPower() contrast() path(4)"
+                + " trackScore(4) movingPower(0,9,9) movingPower(2,0,0) power(0) power(1) power(2) window(0) spread(0)"
+                + " cleaned() undoable() loudest(0) level(1) correlation(0,0,1) bestLag(0,1,31) pointPower(1,1,9)"
+                + " bestIfOff(0) bestWithout(1) bestVelocity(1,9,1)");
+        for (int t = 0; t < 32; t += 3) {
+            for (int i = 0; i < 3; i++) {
+                calls.append(" sample(").append(i).append(',').append(t).append(")"
+                + " waveAt(").append(i).append(',').append(t)
+                        .append(")");
+            }
+        }
+        return answers(x, calls.toString());
     }
 
     private static AcousticCamera emptiedAndLoaded(AcousticCamera x) {
@@ -232,12 +285,10 @@ public final class KeepTest {
                 + " clean(1)=0 undoable()=6 undo()=5 undo()=4 undo()=3 undo()=2 undo()=1 undo()=0 undo()=S");
         AcousticCamera y = Check.loaded(Calls.TEXT);
         Calls.run("recordings made anew, even if it is so already", y, "clean(100)=0 cleaned()=1 setOn(0,1)=true"
-                + " cleaned()=0"
-                + " sample(0,0)=10 clean(100)=0 clean(100)=0 cleaned()=2 moveSource(0,0,0)=0 cleaned()=0 sample(0,0)=10"
-                + " clean(100)=0 cleaned()=1 setVelocity(0,0,0)=0 cleaned()=0 sample(0,0)=10 undo()=5 cleaned()=1"
-                + " undo()=4"
-                + " cleaned()=0 undo()=3 cleaned()=2 undo()=2 cleaned()=1 undo()=1 cleaned()=0 undo()=0 cleaned()=1"
-                + " undo()=S cleaned()=1");
+                + " cleaned()=0 sample(0,0)=10 clean(100)=0 clean(100)=0 cleaned()=2 moveSource(0,0,0)=0 cleaned()=0"
+                + " sample(0,0)=10 clean(100)=0 cleaned()=1 setVelocity(0,0,0)=0 cleaned()=0 sample(0,0)=10 undo()=5"
+                + " cleaned()=1 undo()=4 cleaned()=0 undo()=3 cleaned()=2 undo()=2 cleaned()=1 undo()=1 cleaned()=0"
+                + " undo()=0 cleaned()=1 undo()=S cleaned()=1");
         Calls.run("mutes and weights leave the recordings", Check.loaded(Calls.TEXT), "clean(100)=0 mute(0,1)=false"
                 + " setWeight(1,5)=1 cleaned()=1 mute(0,0)=true cleaned()=1");
     }
@@ -245,14 +296,12 @@ public final class KeepTest {
     private static void latestChanges() {
         AcousticCamera x = Check.loaded(Calls.TEXT);
         Calls.run("six changes", x, "setWeight(0,2)=1 setWeight(0,3)=2 setWeight(0,4)=3 setWeight(0,5)=4"
-                + " setWeight(0,6)=5"
-                + " undoable()=5 setWeight(0,7)=6 undoable()=6 undo()=5 undo()=4 undo()=3 undo()=2 undo()=1 undo()=0"
-                + " micAt(0,3)=1 undo()=S micAt(0,3)=1");
+                + " setWeight(0,6)=5 undoable()=5 setWeight(0,7)=6 undoable()=6 undo()=5 undo()=4 undo()=3 undo()=2"
+                + " undo()=1 undo()=0 micAt(0,3)=1 undo()=S micAt(0,3)=1");
         Calls.run("a seventh one", Check.loaded(Calls.TEXT), "setWeight(0,2)=1 setWeight(0,3)=2 setWeight(0,4)=3"
                 + " setWeight(0,5)=4 setWeight(0,6)=5 setWeight(0,7)=6 setWeight(0,8)=7 undoable()=6 undo()=5"
-                + " micAt(0,3)=7"
-                + " undo()=4 micAt(0,3)=6 undo()=3 micAt(0,3)=5 undo()=2 micAt(0,3)=4 undo()=1 micAt(0,3)=3 undo()=0"
-                + " micAt(0,3)=2 undo()=S micAt(0,3)=2 undoable()=0");
+                + " micAt(0,3)=7 undo()=4 micAt(0,3)=6 undo()=3 micAt(0,3)=5 undo()=2 micAt(0,3)=4 undo()=1"
+                + " micAt(0,3)=3 undo()=0 micAt(0,3)=2 undo()=S micAt(0,3)=2 undoable()=0");
         AcousticCamera y = Check.loaded(Calls.TEXT);
         for (int i = 0; i < 60; i++) {
             Calls.run("many changes", y, "setWeight(1," + i % 7 + ")=" + (i == 0 ? 1 : (i - 1) % 7) + " undoable()="
@@ -306,14 +355,14 @@ public final class KeepTest {
     private static void slots() {
         Calls.run("promises 64 and 65", Check.loaded(Calls.TEXT), "restore(0)=S restore(1)=S save(-1)=X save(2)=X"
                 + " restore(0)=S save(0)=0 restore(1)=S restore(0)=0 restore(0)=0 setWeight(0,7)=1 save(1)=0"
-                + " restore(0)=0"
-                + " micAt(0,3)=1 restore(1)=0 micAt(0,3)=7 restore(1)=0 setWeight(0,8)=7 save(0)=0 restore(1)=0"
-                + " micAt(0,3)=7 restore(0)=0 micAt(0,3)=8 undoable()=0 restore(-1)=X restore(2)=X micAt(0,3)=8");
+                + " restore(0)=0 micAt(0,3)=1 restore(1)=0 micAt(0,3)=7 restore(1)=0 setWeight(0,8)=7 save(0)=0"
+                + " restore(1)=0 micAt(0,3)=7 restore(0)=0 micAt(0,3)=8 undoable()=0 restore(-1)=X restore(2)=X"
+                + " micAt(0,3)=8");
         Calls.run("promise 65, what is saved does not change with the state", Check.loaded(Calls.TEXT), "save(0)=0"
-                + " clean(100)=0 moveSource(0,75,0)=1 setVelocity(0,9,9)=1 setOn(0,0)=true mute(1,1)=false restore(0)=0"
-                + " cleaned()=0 sourceAt(0,0,31)=0 isOn(0)=true isMuted(1)=false sample(0,0)=10 clean(100)=0 undo()=0"
-                + " restore(0)=0 sample(0,0)=10 clean(50)=0 clean(50)=0 save(1)=0 cleaned()=2 setOn(0,1)=true"
-                + " cleaned()=0 restore(1)=0 cleaned()=2 sample(0,0)=-1");
+                + " clean(100)=0 moveSource(0,75,0)=1 setVelocity(0,9,9)=1 setOn(0,0)=true mute(1,1)=false"
+                + " restore(0)=0 cleaned()=0 sourceAt(0,0,31)=0 isOn(0)=true isMuted(1)=false sample(0,0)=10"
+                + " clean(100)=0 undo()=0 restore(0)=0 sample(0,0)=10 clean(50)=0 clean(50)=0 save(1)=0 cleaned()=2"
+                + " setOn(0,1)=true cleaned()=0 restore(1)=0 cleaned()=2 sample(0,0)=-1");
         Calls.run("promises 64 and 65, the best cell", Check.loaded(Calls.TEXT), "moveSource(0,75,0)=1 save(0)=1"
                 + " moveSource(0,0,0)=0 save(1)=0 restore(0)=1 best()=1 restore(1)=0 best()=0");
         AcousticCamera x = Check.loaded(Calls.TEXT);
